@@ -1,0 +1,44 @@
+import java.util.NoSuchElementException;
+
+/** Counts and prints what is not as due. */
+final class Check {
+    private static int wrong = 0;
+
+    private Check() {
+    }
+
+    static void same(String what, Object got, Object due) {
+        if (!due.equals(got)) {
+            wrong++;
+            System.out.println(what + ": " + got + ", due is " + due);
+        }
+    }
+
+    static void throwsArgument(String what, Runnable call) {
+        same(what, thrownBy(call), IllegalArgumentException.class);
+    }
+
+    static void throwsState(String what, Runnable call) {
+        same(what, thrownBy(call), IllegalStateException.class);
+    }
+
+    static void throwsNoSuch(String what, Runnable call) {
+        same(what, thrownBy(call), NoSuchElementException.class);
+    }
+
+    private static Object thrownBy(Runnable call) {
+        try {
+            call.run();
+        } catch (RuntimeException e) {
+            return e.getClass();
+        }
+        return "nothing thrown";
+    }
+
+    static void end() {
+        System.out.println(wrong == 0 ? "all is as due" : wrong + " are not as due");
+        if (wrong != 0) {
+            System.exit(1);
+        }
+    }
+}
