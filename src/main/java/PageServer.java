@@ -601,7 +601,8 @@ public final class PageServer {
                 if (field == null) {
                     return false;
                 }
-                if (!(field.beginsWithColon() ? acceptsColon(field) : acceptsOther(field))) {
+                boolean accepted = field.beginsWithColon() ? acceptsColon(field) : acceptsOther(field);
+                if (!accepted) {
                     return false;
                 }
             }

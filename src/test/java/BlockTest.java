@@ -45,6 +45,13 @@ public final class BlockTest {
         Check.same("no value", codeOf(0, 1, 'a'), 9);
         Check.same("no value behind an entry", codeOf(68), 9);
         Check.same("a value too short", codeOf(4, 2, 'a'), 9);
+        Check.same("the last of 100", codeOf(Talk.join(Talk.times(99, 132), new int[] {128})), 9);
+        Check.same("no value behind 100", codeOf(Talk.join(Talk.times(99, 132), new int[] {68})), 9);
+        Check.same("no name behind 100", codeOf(Talk.join(Talk.times(99, 132), new int[] {0})), 9);
+
+        Talk before = Talk.begun();
+        before.askOpen(1, 4, 5, 'x', 'x', 'x', 'x', 'x').askOpen(3, 4, 3, 'a');
+        Check.same("bytes of the block before are not there", before.server.away(), 9);
     }
 
     private static void canBeRead() {
@@ -90,17 +97,20 @@ public final class BlockTest {
         }
         Check.same("eight of 3 are 24", talk.server.about(5) + " " + talk.server.about(6), "8 24");
         Check.same("the oldest", talk.entryText(15), "a=");
-        talk.askOpen(17, Talk.entering("i", ""));
+        talk.askOpen(17, 15, 1, 'x').askOpen(19, 143).askOpen(21, 79, 0);
+        Check.same("entry 15 can be read in all ways", talk.server.away(), 0);
+        Check.same("the newest has its name", talk.entryText(8), "a=");
+        talk.askOpen(23, Talk.entering("i", ""));
         Check.same("eight still", talk.server.about(5) + " " + talk.server.about(6), "8 24");
-        Check.same("the oldest went", talk.entryText(15), "b=");
+        Check.same("the oldest went", talk.entryText(15), "c=");
         Check.same("the newest", talk.entryText(8), "i=");
-        talk.askOpen(19, Talk.entering("k", "1"));
+        talk.askOpen(25, Talk.entering("k", "1"));
         Check.same("two go for one of 4", talk.server.about(5) + " " + talk.server.about(6), "7 22");
-        Check.same("then the oldest", talk.entryText(14), "d=");
-        talk.askOpen(21, Talk.entering("abcdefghijk", "abcdefghijk"));
+        Check.same("then the oldest", talk.entryText(14), "e=");
+        talk.askOpen(27, Talk.entering("abcdefghijk", "abcdefghijk"));
         Check.same("all go for one of 24", talk.server.about(5) + " " + talk.server.about(6), "1 24");
         Check.same("which comes", talk.entryText(8), "abcdefghijk=abcdefghijk");
-        talk.askOpen(23, Talk.entering("abcdefghijk", "abcdefghijkl"));
+        talk.askOpen(29, Talk.entering("abcdefghijk", "abcdefghijkl"));
         Check.same("one of 25 does not come, and all go", talk.server.about(5) + " " + talk.server.about(6), "0 0");
         Check.same("it could be read", talk.server.away(), 0);
     }

@@ -23,6 +23,10 @@ public final class RestartTest {
         talk.bytes(80, 82, 73, 10, 0, 4);
         talk.server.restart();
         expectNew(talk);
+        talk.begin();
+        Check.same("half a frame is gone", talk.state() + " " + talk.server.away(), "0 0 100 64 24 0 0 0 0");
+        talk.server.restart();
+        talk.takeAll();
         talk.bytes(80, 82, 73, 10, 0, 6, 0, 0);
         Check.same("the first frame is to be SETTINGS again", talk.told(), "AWAY 0 of 0: 0 1");
 

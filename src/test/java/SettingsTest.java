@@ -19,6 +19,7 @@ public final class SettingsTest {
         expect("not of stream 0, an odd length", "AWAY 0 of 0: 0 1", 0, 1, 4);
         expect("not of stream 0, with ACK", "AWAY 0 of 0: 0 1", Talk.ACK, 1);
         expect("ACK and a length", "AWAY 0 of 0: 0 6", Talk.ACK, 0, 4, 4);
+        expect("ACK and a length of 1", "AWAY 0 of 0: 0 6", Talk.ACK, 0, 4);
         expect("ACK", "", Talk.ACK, 0);
         expect("an odd length", "AWAY 0 of 0: 0 6", 0, 0, 4);
         expect("an odd length of 3", "AWAY 0 of 0: 0 6", 0, 0, 4, 50, 5);
@@ -80,5 +81,8 @@ public final class SettingsTest {
         talk.frame(Talk.SETTINGS, 0, 0, 0, 1, 1, 1, 2, 2, 3, 1, 6, 9, 255, 0);
         Check.same("others are ignored", talk.told(), "SETTINGS 1 of 0:");
         Check.same("nothing changed", talk.state() + " " + talk.server.stream(1, 0), state + " 40");
+        talk.frame(Talk.PING, Talk.ACK, 0, 4, 99, 5, 99).frame(Talk.SETTINGS, 0, 0);
+        Check.same("bytes of the frame before are no pairs", talk.state() + " " + talk.server.stream(1, 0),
+                state + " 40");
     }
 }
