@@ -1,159 +1,242 @@
-/** Promise 3: how a block is read, and the entries that come and go by it. */
+/** Promise 3: how a block is read, in 'A BLOCK' of 'Terms'. */
 public final class BlockTest {
+    private static final int BAD = 9;
+
     public static void main(String[] args) {
-        cannotBeRead();
-        canBeRead();
-        entriesCome();
-        oldestGo();
-        sizeChanges();
-        namesOfEntriesThatGo();
-        whatStaysOfUnreadBlocks();
+        emptyBlock();
+        fieldOfEntry();
+        noSuchEntry();
+        becomesNewEntry();
+        noSuchNameOfNewEntry();
+        becomesNoEntry();
+        noSuchNameOfNoEntry();
+        nameBeyondFifteen();
+        sizeBecomes();
+        sizeTooLarge();
+        sizeBehindField();
+        nameIsString();
+        emptyName();
+        emptyValue();
+        longestString();
+        tooLongString();
+        leastAndGreatestByte();
+        wrongByteInString();
+        notAllBytes();
+        bytesOfTheBlockBefore();
+        blockUpToItsLastByte();
+        readFromTheFront();
         Check.end();
     }
 
     private static int codeOf(int... block) {
-        Talk talk = Talk.begun();
-        talk.askOpen(1, block);
-        return talk.server.away();
+        return Talk.begun().askOpen(1, block).away();
     }
 
-    private static void cannotBeRead() {
-        Check.same("entry 0", codeOf(128), 9);
-        Check.same("entry 8 that is not there", codeOf(136), 9);
-        Check.same("entry 127", codeOf(255), 9);
-        Check.same("64 + 8 that is not there", codeOf(72, 1, 'x'), 9);
-        Check.same("64 + 63", codeOf(127, 1, 'x'), 9);
-        Check.same("0 + 8 that is not there", codeOf(8, 1, 'x'), 9);
-        for (int first = 16; first < 32; first++) {
-            Check.same("first byte " + first, codeOf(first, 1, 'x', 1, 'x'), 9);
-        }
-        for (int first = 57; first < 64; first++) {
-            Check.same("first byte " + first, codeOf(first), 9);
-        }
-        Check.same("SIZE behind a field", codeOf(129, 32 + 24), 9);
-        Check.same("a name of length 0", codeOf(0, 0, 1, 'x'), 9);
-        Check.same("a new name of length 0", codeOf(64, 0, 1, 'x'), 9);
-        Check.same("a name of length 21", codeOf(Talk.field("abcdefghijklmnopqrstu", "")), 9);
-        Check.same("a value of length 21", codeOf(Talk.field("a", "abcdefghijklmnopqrstu")), 9);
-        Check.same("a length of 255", codeOf(Talk.join(new int[] {4, 255}, Talk.times(90, 'x'))), 9);
-        for (int bad : new int[] {0, 10, 32, 127, 128, 255}) {
-            Check.same("byte " + bad + " in a value", codeOf(4, 2, 'x', bad), 9);
-            Check.same("byte " + bad + " in a name", codeOf(0, 2, bad, 'x', 0), 9);
-        }
-        Check.same("no name", codeOf(0), 9);
-        Check.same("a name too short", codeOf(0, 3, 'a', 'b'), 9);
-        Check.same("no value", codeOf(0, 1, 'a'), 9);
-        Check.same("no value behind an entry", codeOf(68), 9);
-        Check.same("a value too short", codeOf(4, 2, 'a'), 9);
-        Check.same("the last of 100", codeOf(Talk.join(Talk.times(99, 132), new int[] {128})), 9);
-        Check.same("no value behind 100", codeOf(Talk.join(Talk.times(99, 132), new int[] {68})), 9);
-        Check.same("no name behind 100", codeOf(Talk.join(Talk.times(99, 132), new int[] {0})), 9);
-
-        Talk before = Talk.begun();
-        before.askOpen(1, 4, 5, 'x', 'x', 'x', 'x', 'x').askOpen(3, 4, 3, 'a');
-        Check.same("bytes of the block before are not there", before.server.away(), 9);
+    private static void emptyBlock() {
+        Check.of("Terms, A BLOCK", "A BLOCK is read from the front, a FIELD (name and value) after the other");
+        Check.same("no bytes", Talk.begun().askOpen(1).told(), "RESET 0 of 1: 1");
     }
 
-    private static void canBeRead() {
-        Check.same("nothing", codeOf(), 0);
+    private static void fieldOfEntry() {
+        Check.of("Terms, A BLOCK", "128 + i: that of ENTRY i");
         for (int i = 1; i <= 7; i++) {
             Check.same("128 + " + i, codeOf(128 + i), 0);
-            Check.same("64 + " + i, codeOf(64 + i, 0), 0);
-            Check.same("0 + " + i, codeOf(i, 1, '!'), 0);
         }
-        Check.same("the least and the greatest byte", codeOf(0, 2, 33, 126, 2, 126, 33), 0);
-        Check.same("texts of 20", codeOf(Talk.field("abcdefghijklmnopqrst", "abcdefghijklmnopqrst")), 0);
-        Check.same("an empty value", codeOf(Talk.field("a", "")), 0);
-        Check.same("SIZE 0", codeOf(32), 0);
-        Check.same("SIZE 24", codeOf(56), 0);
-        Check.same("SIZE twice", codeOf(32, 56, 129), 0);
+        Talk talk = Talk.begun().askOpen(1, Talk.entering(":m", "PUT")).hushed();
+        Check.same("128 + 8", talk.ask(3, 136, 131).told(), "HEADERS 5 of 3: 6 3 52 48 53");
+        Check.same("no entry comes by it", talk.about(5), 1);
     }
 
-    private static void entriesCome() {
-        Talk talk = Talk.begun();
-        talk.askOpen(1, Talk.join(Talk.entering("a", "b"), new int[] {67, 1, '/'}, Talk.field("z", "z")));
-        Check.same("two came, the third did not", talk.server.about(5), 2);
-        Check.same("they take", talk.server.about(6), 4 + 5);
-        Check.same("the newest", talk.entryText(8), ":p=/");
-        Check.same("the older", talk.entryText(9), "a=b");
-        talk.askOpen(3, 72, 1, 'q');
-        Check.same("the name of one that came", talk.entryText(8), ":p=q");
-        Check.same("the oldest", talk.entryText(10), "a=b");
-        talk.askOpen(5, 10, 1, 'c');
-        Check.same("0 + 10 is no new entry", talk.server.about(5), 3);
-        Check.same("and could be read", talk.server.away(), 0);
-
-        Talk within = Talk.begun();
-        within.ask(1, 65, 3, 'P', 'U', 'T', 131, 132, 136);
-        Check.same("an entry of the same block is there at once", within.told(), "RESET 0 of 1: 1");
-        within.ask(3, 136, 131);
-        Check.same("and in the next", within.told(), "HEADERS 5 of 3: 6 3 52 48 53");
+    private static void noSuchEntry() {
+        Check.of("Terms, A BLOCK", "There must be such an entry, and all bytes");
+        Check.same("128 + 0", codeOf(128), BAD);
+        Check.same("128 + 8", codeOf(136), BAD);
+        Check.same("128 + 127", codeOf(255), BAD);
+        Talk one = Talk.begun().askOpen(1, Talk.entering("a", "b"));
+        Check.same("128 + 8 of 8", one.askOpen(3, 136).away(), 0);
+        Check.same("128 + 9 of 8", one.askOpen(5, 137).away(), BAD);
+        Talk gone = Talk.begun().askOpen(1, Talk.entering("a", "b")).askOpen(3, 32, 136);
+        Check.same("128 + 8, which went", gone.away(), BAD);
     }
 
-    private static void oldestGo() {
-        Talk talk = Talk.begun();
+    private static void becomesNewEntry() {
+        Check.of("Terms, A BLOCK", "64 + i: a name and a STRING as its value, which become a new entry");
+        String[] names = {":m", ":m", ":p", "host", "length", ":s", ":s"};
+        for (int i = 1; i <= 7; i++) {
+            Check.same("64 + " + i, Talk.begun().askOpen(1, 64 + i, 1, 'x').came(), names[i - 1] + "=x");
+        }
+        Check.same("64 + 0", Talk.begun().askOpen(1, 64, 2, 'a', 'b', 1, 'x').came(), "ab=x");
+        Talk talk = Talk.begun().askOpen(1, Talk.entering("q", "1")).askOpen(3, 64 + 8, 1, '2');
+        Check.same("64 + 8", talk.came(), "q=2 q=1");
+        Talk used = Talk.begun().ask(1, 65, 3, 'P', 'U', 'T', 131);
+        Check.same("it is a field too", used.told(), "HEADERS 5 of 1: 6 3 52 48 53");
+    }
+
+    private static void noSuchNameOfNewEntry() {
+        Check.of("Terms, A BLOCK", "There must be such an entry, and all bytes");
+        Check.same("64 + 8", codeOf(72, 1, 'x'), BAD);
+        Check.same("64 + 63", codeOf(127, 1, 'x'), BAD);
+        Check.same("64 + 9 of 8", codeOf(Talk.join(Talk.entering("a", "b"), new int[] {73, 1, 'x'})), BAD);
+        Check.same("64 + 8 of 8", codeOf(Talk.join(Talk.entering("a", "b"), new int[] {72, 1, 'x'})), 0);
+    }
+
+    private static void becomesNoEntry() {
+        Check.of("Terms, A BLOCK", "0 + i (i to 15): likewise, without");
+        for (int i = 1; i <= 7; i++) {
+            Talk talk = Talk.begun().askOpen(1, i, 1, 'x');
+            Check.same("0 + " + i, talk.came() + talk.away(), "0");
+        }
+        Talk zero = Talk.begun().askOpen(1, 0, 1, 'a', 1, 'x');
+        Check.same("0 + 0", zero.came() + zero.away(), "0");
+        Talk used = Talk.begun().ask(1, 1, 3, 'P', 'U', 'T', 131);
+        Check.same("it is a field", used.told(), "HEADERS 5 of 1: 6 3 52 48 53");
+    }
+
+    private static void noSuchNameOfNoEntry() {
+        Check.of("Terms, A BLOCK", "There must be such an entry, and all bytes");
+        Check.same("0 + 8", codeOf(8, 1, 'x'), BAD);
+        Check.same("0 + 15", codeOf(15, 1, 'x'), BAD);
+        Check.same("0 + 9 of 8", codeOf(Talk.join(Talk.entering("a", "b"), new int[] {9, 1, 'x'})), BAD);
+        Check.same("0 + 8 of 8", codeOf(Talk.join(Talk.entering("a", "b"), new int[] {8, 1, 'x'})), 0);
+    }
+
+    private static void nameBeyondFifteen() {
+        Check.of("Terms, A BLOCK", "others cannot be read");
+        Talk full = Talk.begun();
         for (int k = 0; k < 8; k++) {
-            talk.askOpen(2 * k + 1, Talk.entering("" + (char) ('a' + k), ""));
+            full.askOpen(1 + 2 * k, Talk.entering("" + (char) ('a' + k), ""));
         }
-        Check.same("eight of 3 are 24", talk.server.about(5) + " " + talk.server.about(6), "8 24");
-        Check.same("the oldest", talk.entryText(15), "a=");
-        talk.askOpen(17, 15, 1, 'x').askOpen(19, 143).askOpen(21, 79, 0);
-        Check.same("entry 15 can be read in all ways", talk.server.away(), 0);
-        Check.same("the newest has its name", talk.entryText(8), "a=");
-        talk.askOpen(23, Talk.entering("i", ""));
-        Check.same("eight still", talk.server.about(5) + " " + talk.server.about(6), "8 24");
-        Check.same("the oldest went", talk.entryText(15), "c=");
-        Check.same("the newest", talk.entryText(8), "i=");
-        talk.askOpen(25, Talk.entering("k", "1"));
-        Check.same("two go for one of 4", talk.server.about(5) + " " + talk.server.about(6), "7 22");
-        Check.same("then the oldest", talk.entryText(14), "e=");
-        talk.askOpen(27, Talk.entering("abcdefghijk", "abcdefghijk"));
-        Check.same("all go for one of 24", talk.server.about(5) + " " + talk.server.about(6), "1 24");
-        Check.same("which comes", talk.entryText(8), "abcdefghijk=abcdefghijk");
-        talk.askOpen(29, Talk.entering("abcdefghijk", "abcdefghijkl"));
-        Check.same("one of 25 does not come, and all go", talk.server.about(5) + " " + talk.server.about(6), "0 0");
-        Check.same("it could be read", talk.server.away(), 0);
+        Check.same("0 + 15 of 15", full.askOpen(17, 15, 1, 'x').away(), 0);
+        Check.same("0 + 16", full.askOpen(19, 16, 1, 'x').away(), BAD);
+        for (int first = 16; first <= 31; first++) {
+            Check.same("first byte " + first, codeOf(first, 1, 'x', 1, 'x'), BAD);
+            Check.same("first byte " + first + " alone", codeOf(first), BAD);
+        }
     }
 
-    private static void sizeChanges() {
-        Talk talk = Talk.begun();
-        talk.askOpen(1, Talk.join(Talk.entering("a", ""), Talk.entering("b", "1"), Talk.entering("c", "12")));
-        Check.same("12", talk.state().substring(11), "24 3 12 15");
-        talk.askOpen(3, 32 + 12);
-        Check.same("SIZE 12", talk.server.about(4) + " " + talk.server.about(5), "12 3");
-        talk.askOpen(5, 32 + 11);
-        Check.same("SIZE 11: the oldest goes", talk.server.about(5) + " " + talk.server.about(6), "2 9");
-        Check.same("the newest stays", talk.entryText(8), "c=12");
-        Check.same("the older", talk.entryText(9), "b=1");
-        talk.askOpen(7, Talk.entering("d", ""));
-        Check.same("one more goes", talk.server.about(5) + " " + talk.server.about(6), "2 8");
-        talk.askOpen(9, 32 + 4, 32 + 20);
-        Check.same("the least counts", talk.server.about(4) + " " + talk.server.about(5), "20 1");
-        Check.same("d stays", talk.entryText(8), "d=");
-        talk.askOpen(11, 32);
-        Check.same("SIZE 0", talk.server.about(4) + " " + talk.server.about(5) + " " + talk.server.about(6), "0 0 0");
-        talk.askOpen(13, Talk.entering("a", ""));
-        Check.same("nothing comes", talk.server.about(5), 0);
-        talk.askOpen(15, 32 + 3, 64, 1, 'a', 0);
-        Check.same("one of 3 comes at SIZE 3", talk.server.about(5), 1);
-        Check.same("no away", talk.server.away(), 0);
+    private static void sizeBecomes() {
+        Check.of("Terms, A BLOCK", "32 + n: the SIZE becomes n (to 24)");
+        for (int n = 0; n <= 24; n++) {
+            Talk talk = Talk.begun().askOpen(1, 32 + n);
+            Check.same("32 + " + n, talk.about(4) + " " + talk.away(), n + " 0");
+        }
     }
 
-    private static void namesOfEntriesThatGo() {
-        Talk talk = Talk.begun();
-        talk.askOpen(1, Talk.entering("abcdefghij", "abcdefgh"));
-        Check.same("20", talk.server.about(6), 20);
-        talk.askOpen(3, 72, 1, 'x');
-        Check.same("the entry goes, its name stays", talk.entryText(8), "abcdefghij=x");
-        Check.same("alone", talk.server.about(5) + " " + talk.server.about(6), "1 13");
+    private static void sizeTooLarge() {
+        Check.of("Terms, A BLOCK", "32 + n: the SIZE becomes n (to 24), only before all fields; others cannot be read");
+        for (int first = 57; first <= 63; first++) {
+            Talk talk = Talk.begun().askOpen(1, first);
+            Check.same("first byte " + first, talk.about(4) + " " + talk.away(), "24 " + BAD);
+        }
     }
 
-    private static void whatStaysOfUnreadBlocks() {
-        Talk talk = Talk.begun();
-        talk.askOpen(1, Talk.join(new int[] {32 + 10}, Talk.entering("a", "b"), new int[] {128}));
-        Check.same("what stood before it was read", talk.server.about(4) + " " + talk.entryText(8), "10 a=b");
-        Talk half = Talk.begun();
-        half.askOpen(1, 64, 1, 'a', 2, 'b');
-        Check.same("half a field", half.server.about(5), 0);
+    private static void sizeBehindField() {
+        Check.of("Terms, A BLOCK", "only before all fields");
+        Talk before = Talk.begun().ask(1, 32 + 3, 32 + 24, 32 + 9, 129, 131);
+        Check.same("some before all", before.told() + " " + before.about(4), "HEADERS 5 of 1: 135 9");
+        for (int n : new int[] {0, 9, 24}) {
+            Talk talk = Talk.begun().askOpen(1, 129, 32 + n, 131);
+            Check.same(n + " behind an entry's", talk.about(4) + " " + talk.away(), "24 " + BAD);
+        }
+        Check.same("behind a new one", codeOf(Talk.join(Talk.entering("a", "b"), new int[] {40})), BAD);
+        Check.same("behind one that is no entry", codeOf(Talk.join(Talk.field("a", "b"), new int[] {40})), BAD);
+        Check.same("in the next block", Talk.begun().askOpen(1, 129, 131).askOpen(3, 40, 129, 131).about(4), 8);
+    }
+
+    private static void nameIsString() {
+        Check.of("Terms, A BLOCK", "The name is that of entry i, for i = 0 a string");
+        Check.same("i = 0", Talk.begun().askOpen(1, 64, 1, 'n', 1, 'v').came(), "n=v");
+        Check.same("i = 4", Talk.begun().askOpen(1, 68, 1, 'v').came(), "host=v");
+    }
+
+    private static void emptyName() {
+        Check.of("Terms, A BLOCK", "for a name not 0");
+        Check.same("0 + 0", codeOf(0, 0, 1, 'x'), BAD);
+        Check.same("64 + 0", codeOf(64, 0, 1, 'x'), BAD);
+        Check.same("a name of 1", codeOf(0, 1, 'a', 1, 'x'), 0);
+    }
+
+    private static void emptyValue() {
+        Check.of("Terms, A BLOCK", "for a name not 0");
+        Check.same("of no entry", codeOf(0, 1, 'a', 0), 0);
+        Check.same("of a new one", Talk.begun().askOpen(1, 64, 1, 'a', 0).came(), "a=");
+        Check.same("behind entry 4", Talk.begun().askOpen(1, 68, 0).came(), "host=");
+    }
+
+    private static void longestString() {
+        Check.of("Terms, A BLOCK", "A STRING: its length (to 20), and so many bytes 33 .. 126");
+        String twenty = "abcdefghijklmnopqrst";
+        Check.same("a name of 20", Talk.begun().askOpen(1, Talk.entering(twenty, "12")).came(), twenty + "=12");
+        Check.same("a value of 20", Talk.begun().askOpen(1, Talk.entering("ab", twenty)).came(), "ab=" + twenty);
+        Check.same("both", codeOf(Talk.field(twenty, twenty)), 0);
+    }
+
+    private static void tooLongString() {
+        Check.of("Terms, A BLOCK", "A STRING: its length (to 20)");
+        for (int length : new int[] {21, 32, 64}) {
+            int[] text = Talk.join(new int[] {length}, Talk.times(length, 'x'));
+            Check.same("a name of " + length, codeOf(Talk.join(new int[] {0}, text, new int[] {0})), BAD);
+            Check.same("a value of " + length, codeOf(Talk.join(new int[] {4}, text)), BAD);
+        }
+        Check.same("a length of 255", codeOf(Talk.join(new int[] {4, 255}, Talk.times(98, 'x'))), BAD);
+    }
+
+    private static void leastAndGreatestByte() {
+        Check.of("Terms, A BLOCK", "and so many bytes 33 .. 126");
+        Check.same("33 and 126", Talk.begun().askOpen(1, 64, 2, 33, 126, 2, 126, 33).came(), "!~=~!");
+    }
+
+    private static void wrongByteInString() {
+        Check.of("Terms, A BLOCK", "and so many bytes 33 .. 126");
+        for (int bad : new int[] {0, 10, 32, 127, 128, 'a' + 128, 255}) {
+            Check.same(bad + " alone in a value", codeOf(4, 1, bad), BAD);
+            Check.same(bad + " first in a value", codeOf(4, 2, bad, 'x'), BAD);
+            Check.same(bad + " last in a value", codeOf(4, 2, 'x', bad), BAD);
+            Check.same(bad + " first in a name", codeOf(0, 2, bad, 'x', 0), BAD);
+            Check.same(bad + " last in a name", codeOf(0, 2, 'x', bad, 0), BAD);
+            Check.same(bad + " in a new entry", codeOf(64, 1, 'x', 1, bad), BAD);
+        }
+    }
+
+    private static void notAllBytes() {
+        Check.of("Terms, A BLOCK", "There must be such an entry, and all bytes");
+        Check.same("no name", codeOf(0), BAD);
+        Check.same("no name of a new one", codeOf(64), BAD);
+        Check.same("half a name", codeOf(0, 3, 'a', 'b'), BAD);
+        Check.same("no value behind a name", codeOf(0, 1, 'a'), BAD);
+        Check.same("no value behind an entry's", codeOf(4), BAD);
+        Check.same("no value of a new one", codeOf(68), BAD);
+        Check.same("half a value", codeOf(4, 2, 'a'), BAD);
+        Check.same("a length alone", codeOf(4, 1), BAD);
+        Talk half = Talk.begun().askOpen(1, 64, 1, 'a', 2, 'b');
+        Check.same("half a field becomes no entry", half.came() + half.away(), "" + BAD);
+    }
+
+    private static void bytesOfTheBlockBefore() {
+        Check.of("Terms, A BLOCK", "and all bytes");
+        Talk talk = Talk.begun().askOpen(1, 4, 5, 'x', 'x', 'x', 'x', 'x').askOpen(3, 4, 3, 'a');
+        Check.same("they are not there", talk.away(), BAD);
+    }
+
+    private static void blockUpToItsLastByte() {
+        Check.of("Terms, A BLOCK", "and all bytes");
+        int[] most = Talk.times(99, 132);
+        Check.same("100 fields", codeOf(Talk.times(100, 132)), 0);
+        Check.same("no value behind 100", codeOf(Talk.join(most, new int[] {68})), BAD);
+        Check.same("no name behind 100", codeOf(Talk.join(most, new int[] {0})), BAD);
+        Check.same("no such entry at 100", codeOf(Talk.join(most, new int[] {128})), BAD);
+        int[] last = Talk.join(Talk.times(98, 132), new int[] {4});
+        Check.same("an empty value at 100", codeOf(Talk.join(last, new int[] {0})), 0);
+        Check.same("a value beyond 100", codeOf(Talk.join(last, new int[] {1})), BAD);
+    }
+
+    /** What stood before the place that cannot be read was read, and holds. */
+    private static void readFromTheFront() {
+        Check.of("Terms, A BLOCK", "A BLOCK is read from the front");
+        Talk talk = Talk.begun().askOpen(1, Talk.join(new int[] {32 + 10}, Talk.entering("a", "b"), new int[] {128},
+                Talk.entering("c", "d")));
+        Check.same("SIZE, entries and code", talk.about(4) + " " + talk.came() + " " + talk.away(), "10 a=b " + BAD);
+        Talk within = Talk.begun().ask(1, 65, 3, 'P', 'U', 'T', 136);
+        Check.same("a new entry is there at once", within.away(), 0);
     }
 }

@@ -1,16 +1,22 @@
 import java.util.NoSuchElementException;
 
-/** Counts and prints what is not as due. */
+/** Counts and prints what is not as due, with the sentence of the document that it is against. */
 final class Check {
     private static int wrong = 0;
+    private static String sentence = "";
 
     private Check() {
+    }
+
+    /** The checks from here on are for these words of ../shared/DOC.md, which stand there under where. */
+    static void of(String where, String words) {
+        sentence = where + " '" + words + "': ";
     }
 
     static void same(String what, Object got, Object due) {
         if (!due.equals(got)) {
             wrong++;
-            System.out.println(what + ": " + got + ", due is " + due);
+            System.out.println(sentence + what + ": " + got + ", due is " + due);
         }
     }
 

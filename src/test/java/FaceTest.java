@@ -7,6 +7,7 @@ import java.util.TreeSet;
 /** The public face is the document's, and nothing else can be seen. */
 public final class FaceTest {
     public static void main(String[] args) {
+        Check.of("The public face", "public final class PageServer");
         Check.same("class", Modifier.toString(PageServer.class.getModifiers()), "public final");
         Check.same("NONE", PageServer.NONE, -1);
         Check.same("constructors", constructors(), "[public PageServer()]");

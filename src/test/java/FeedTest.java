@@ -1,165 +1,188 @@
+import java.util.Arrays;
 import java.util.Random;
 
-/** Promise 3: how bytes come, the preface, and how they are cut into frames. */
+/** Promise 3: feed, and how the bytes of 'Terms' are cut into frames. */
 public final class FeedTest {
     public static void main(String[] args) {
-        wrongNumbers();
         lowestBytes();
-        fullOutput();
-        preface();
-        tooLong();
-        firstFrame();
-        wholeFrames();
+        wrongNumberOfBytes();
+        mostOutput();
+        mostOutputWithinFrame();
+        mostOutputBehindAway();
+        prefaceFirst();
+        wrongPreface();
+        bytesAsLengthSays();
+        twoBytesOneNumber();
         piecesOfAnySize();
-        afterAway();
         Check.end();
     }
 
-    private static void wrongNumbers() {
-        Talk talk = new Talk();
-        for (int n : new int[] {0, -1, 5, Integer.MIN_VALUE, Integer.MAX_VALUE, 256 + 1}) {
-            Check.same("feed of " + n, talk.server.feed(0x01010101, n), false);
-        }
-        Check.same("nothing came", talk.server.away(), 0);
-    }
-
     private static void lowestBytes() {
+        Check.of("Promise 3", "The n lowest bytes of word (n is 1 .. 4) come, the highest of them first");
         Talk talk = new Talk();
-        talk.server.feed(0x11223350, 1);
-        talk.server.feed(0x99995249, 2);
-        talk.server.feed(0xff0a0004, 3);
-        talk.server.feed(0x77770000, 2);
-        Check.same("the lowest, the highest first", talk.told(), "SETTINGS 0 of 0: 3 4; SETTINGS 1 of 0:");
+        Check.same("1", talk.feed(0x11223350, 1), true);
+        Check.same("2", talk.feed(0x99995249, 2), true);
+        Check.same("3", talk.feed(0xff0a0004, 3), true);
+        Check.same("2 again", talk.feed(0x77770000, 2), true);
+        Check.same("what is said", talk.told(), "SETTINGS 0 of 0: 3 4; SETTINGS 1 of 0:");
+        talk.feed(0x04060000, 4);
+        talk.feed(0xfffefdfc, 4);
+        Check.same("4", talk.told(), "PING 1 of 0: 255 254 253 252");
     }
 
-    private static void fullOutput() {
-        Talk talk = Talk.begun();
-        for (int k = 0; k < 37; k++) {
-            talk.frame(Talk.PING, 0, 0, 1, 2, 3, 4);
-        }
-        talk.frame(Talk.SETTINGS, 0, 0);
-        Check.same("300 wait", talk.server.waiting(), 300);
-        talk.frame(Talk.PING, 0, 0, 1, 2, 3, 4);
-        Check.same("308 wait", talk.server.waiting(), 308);
-        Check.same("feed is refused", talk.server.feed(0x01010101, 4), false);
-        talk.server.take(7);
-        Check.same("301 wait", talk.server.waiting(), 301);
-        Check.same("feed is refused at 301", talk.server.feed(0x01010101, 4), false);
-        talk.server.take(1);
-        talk.frame(Talk.PING, 0, 0, 9, 9, 9, 9);
-        Check.same("nothing of what was refused came", talk.server.waiting(), 308);
-        Check.same("no away", talk.server.away(), 0);
-    }
-
-    private static void preface() {
-        for (int wrong = 0; wrong < 4; wrong++) {
-            Talk talk = new Talk();
-            talk.takeAll();
-            int[] bytes = {80, 82, 73, 10};
-            for (int k = 0; k < wrong; k++) {
-                talk.bytes(bytes[k]);
+    private static void wrongNumberOfBytes() {
+        Check.of("Promise 3", "false, changing nothing, when n is not as said");
+        int[][] before = {{}, {80, 82}, {80, 82, 73, 10}, {80, 82, 73, 10, 0, 4, 0, 0, 4, 6},
+            {80, 82, 73, 10, 0, 4, 0, 0, 4, 6, 0, 0, 1, 2, 3}};
+        for (int[] come : before) {
+            for (int n : new int[] {0, -1, 5, 6, 8, 257, -4, Integer.MIN_VALUE, Integer.MAX_VALUE}) {
+                Talk talk = new Talk();
+                talk.bytes(come);
+                String all = talk.all();
+                String what = n + " bytes behind " + come.length;
+                Check.same(what, talk.feed(0x01010101, n), false);
+                Check.same(what + ", then all", talk.all(), all);
+                int[] whole = {80, 82, 73, 10, 0, 4, 0, 0, 4, 6, 0, 0, 1, 2, 3, 4};
+                talk.bytes(Arrays.copyOfRange(whole, come.length, whole.length));
+                Check.same(what + ", then the rest", talk.told(),
+                        "SETTINGS 0 of 0: 3 4; SETTINGS 1 of 0:; PING 1 of 0: 1 2 3 4");
             }
-            Check.same("before byte " + wrong, talk.told(), "");
-            talk.bytes(bytes[wrong] + 1);
-            Check.same("at byte " + wrong, talk.told(), "AWAY 0 of 0: 0 1");
-            talk.bytes(bytes[wrong]);
-            Check.same("behind it", talk.told(), "");
-            Check.same("code", talk.server.away(), 1);
         }
     }
 
-    private static void tooLong() {
-        Talk talk = Talk.begun();
-        talk.bytes(201, 2, 0);
-        Check.same("three bytes are there", talk.server.away(), 0);
-        talk.bytes(0);
-        Check.same("four bytes are there", talk.told(), "AWAY 0 of 0: 0 6");
-        Check.same("code", talk.server.away(), 6);
-
-        Talk longest = Talk.begun();
-        longest.frame(2, 0, 0, Talk.times(200, 1));
-        longest.frame(Talk.PING, 0, 0, 4, 3, 2, 1);
-        Check.same("200 is not too long", longest.told(), "PING 1 of 0: 4 3 2 1");
-
-        Talk first = new Talk();
-        first.takeAll();
-        first.bytes(80, 82, 73, 10, 255, 1, 0, 1);
-        Check.same("before all else", first.told(), "AWAY 0 of 0: 0 6");
-
-        Talk block = Talk.begun();
-        block.frame(Talk.HEADERS, 0, 1, 129).bytes(201, 0, 0, 1);
-        Check.same("within a block", block.told(), "AWAY 0 of 0: 0 6");
-    }
-
-    private static void firstFrame() {
-        for (int type = 0; type < 12; type++) {
-            Talk talk = new Talk();
-            talk.takeAll();
-            talk.bytes(80, 82, 73, 10).frame(type, 0, 0);
-            boolean settings = type == Talk.SETTINGS;
-            Check.same("first of type " + type, talk.told(),
-                    settings ? "SETTINGS 1 of 0:" : "AWAY 0 of 0: 0 1");
+    /** A talk in which 300 bytes wait. */
+    private static Talk threeHundred() {
+        Talk talk = Talk.withPages();
+        for (int k = 0; k < 37; k++) {
+            talk.ping();
         }
-        Talk acked = new Talk();
-        acked.takeAll();
-        acked.bytes(80, 82, 73, 10).frame(Talk.SETTINGS, Talk.ACK, 0);
-        Check.same("first has ACK", acked.told(), "AWAY 0 of 0: 0 1");
-        Talk longAck = new Talk();
-        longAck.takeAll();
-        longAck.bytes(80, 82, 73, 10).frame(Talk.SETTINGS, Talk.ACK, 0, 1);
-        Check.same("first has ACK and a length", longAck.told(), "AWAY 0 of 0: 0 1");
-        Talk otherFlags = new Talk();
-        otherFlags.takeAll();
-        otherFlags.bytes(80, 82, 73, 10).frame(Talk.SETTINGS, 254, 0);
-        Check.same("first has other flags", otherFlags.told(), "SETTINGS 1 of 0:");
+        talk.settings();
+        Check.same("it waits", talk.waiting(), 300);
+        return talk;
     }
 
-    private static void wholeFrames() {
+    private static void mostOutput() {
+        Check.of("Promise 3", "or more than 300 bytes of output wait");
+        Talk talk = threeHundred();
+        Check.same("300 wait, feed", talk.feed(0x04060000, 4), true);
+        Check.same("300 wait still, feed", talk.feed(0x01020304, 4), true);
+        Check.same("they came", talk.waiting(), 308);
+        Check.same("308 wait, feed", talk.feed(0x04060000, 4), false);
+        talk.take(7);
+        Check.same("301 wait, feed", talk.feed(0x04060000, 4), false);
+        Check.same("301 wait, feed of 1", talk.feed(0, 1), false);
+        talk.take(1);
+        Check.same("300 wait again", talk.waiting(), 300);
+        talk.ping();
+        Check.same("nothing of what was refused came", talk.waiting() + " " + talk.away(), "308 0");
+    }
+
+    private static void mostOutputWithinFrame() {
+        Check.of("Promise 3", "false, changing nothing, when n is not as said, or more than 300 bytes of output wait");
+        Talk talk = threeHundred();
+        // The last byte of a PING comes together with the first two of RESET.
+        talk.bytes(4, 6, 0, 0, 1, 2, 3);
+        talk.feed(0x040103, 3);
+        String before = talk.state() + " " + talk.waiting() + " " + talk.away();
+        Check.same("308 wait, feed", talk.feed(0x0001, 2), false);
+        Check.same("then what is told", talk.state() + " " + talk.waiting() + " " + talk.away(), before);
+        talk.take(8);
+        talk.bytes(0, 1);
+        Check.same("the frame is not whole", talk.away(), 0);
+        talk.bytes(8);
+        Check.same("RESET of an idle stream is", talk.away(), 1);
+    }
+
+    private static void mostOutputBehindAway() {
+        Check.of("Promise 3", "or more than 300 bytes of output wait");
+        Talk talk = threeHundred();
+        talk.bytes(201, 0, 0, 0);
+        Check.same("AWAY waits too", talk.waiting() + " " + talk.away(), "306 6");
+        Check.same("306 wait, feed", talk.feed(0, 4), false);
+        talk.take(5);
+        Check.same("301 wait, feed", talk.feed(0, 4), false);
+        talk.take(1);
+        Check.same("300 wait, feed", talk.feed(0, 4), true);
+    }
+
+    private static void prefaceFirst() {
+        Check.of("Terms, BYTES", "BYTES that come are first the PREFACE 80, 82, 73, 10, then FRAMES");
+        Talk talk = new Talk().hushed();
+        talk.bytes(80).bytes(82).bytes(73);
+        Check.same("three bytes", talk.told() + talk.away(), "0");
+        talk.bytes(10);
+        Check.same("four bytes", talk.told() + talk.away(), "0");
+        talk.settings();
+        Check.same("then a frame", talk.told(), "SETTINGS 1 of 0:");
+        Talk none = new Talk().hushed();
+        none.settings();
+        Check.same("a frame without it", none.told(), "AWAY 0 of 0: 0 1");
+    }
+
+    private static void wrongPreface() {
+        Check.of("Terms, A preface", "A preface with another byte: AWAY 1 at this byte");
+        int[] bytes = {80, 82, 73, 10};
+        for (int place = 0; place < 4; place++) {
+            for (int other : new int[] {0, 255, bytes[place] - 1, bytes[place] + 1, bytes[(place + 1) % 4]}) {
+                Talk talk = new Talk().hushed();
+                talk.bytes(Arrays.copyOf(bytes, place));
+                String what = other + " behind " + place + " bytes";
+                Check.same("before " + what, talk.told() + talk.away(), "0");
+                talk.bytes(other);
+                Check.same(what, talk.told() + " " + talk.away(), "AWAY 0 of 0: 0 1 1");
+            }
+        }
+    }
+
+    private static void bytesAsLengthSays() {
+        Check.of("Terms, BYTES", "and as many bytes as the length says");
+        for (int length : new int[] {0, 1, 2, 199, 200}) {
+            Talk talk = Talk.begun();
+            talk.frame(2, 0, 0, Talk.times(length, 1)).ping();
+            Check.same(length + " bytes, then PING", talk.told(), "PING 1 of 0: 1 2 3 4");
+        }
         Talk talk = Talk.begun();
         talk.bytes(1, 3, 0, 9);
-        Check.same("RESET of an idle one is not whole", talk.server.away(), 0);
+        Check.same("none of 1", talk.away(), 0);
         talk.bytes(0);
-        Check.same("it is whole", talk.server.away(), 1);
+        Check.same("1 of 1", talk.away(), 1);
+        Talk none = Talk.begun();
+        none.bytes(0, 6, 0);
+        Check.same("a head of three bytes", none.away(), 0);
+        none.bytes(0);
+        Check.same("a head, and no bytes", none.away(), 6);
+    }
+
+    private static void twoBytesOneNumber() {
+        Check.of("Terms, BYTES", "Two bytes that are one number have the higher first");
+        Talk talk = Talk.withPages();
+        talk.frame(Talk.WINDOW, 0, 0, 1, 2);
+        Check.same("the connection's window", talk.about(2), 100 + 258);
+        talk.askOpen(1, Talk.getting('a')).frame(Talk.WINDOW, 0, 1, 2, 1);
+        Check.same("a stream's window", talk.stream(1, 0), 40 + 513);
+        talk.frame(Talk.DATA, 0, 1, Talk.times(50, 0));
+        Check.same("WINDOW that is sent", talk.told(), "WINDOW 0 of 0: 0 50; WINDOW 0 of 1: 0 50");
     }
 
     private static void piecesOfAnySize() {
+        Check.of("What it is", "bytes come in pieces of any size and are cut into frames");
         int[] all = Talk.join(new int[] {80, 82, 73, 10, 2, 4, 0, 0, 5, 20},
                 new int[] {5, 1, 5, 1, 129, 67, 2, '/', 'a'}, new int[] {4, 6, 0, 0, 9, 8, 7, 6},
                 new int[] {2, 1, 0, 3, 129, 3, 2, 9, 4, 3, 1, '/'}, new int[] {2, 8, 0, 0, 0, 50});
-        String due = null;
         for (int seed = 0; seed < 50; seed++) {
             Random random = new Random(seed);
             Talk talk = new Talk();
-            talk.server.page('a', 0, 60, 4);
+            talk.page('a', 0, 60, 4);
             int at = 0;
             while (at < all.length) {
-                int n = Math.min(all.length - at, 1 + random.nextInt(4));
-                talk.bytes(java.util.Arrays.copyOfRange(all, at, at + n));
-                at += n;
+                int n = seed < 4 ? seed + 1 : 1 + random.nextInt(4);
+                int end = Math.min(all.length, at + n);
+                talk.bytes(Arrays.copyOfRange(all, at, end));
+                at = end;
             }
-            String state = talk.state() + " | " + talk.told();
-            due = due == null ? state : due;
-            Check.same("pieces " + seed, state, due);
+            Check.same("pieces " + seed, talk.state() + " | " + talk.told(),
+                    "3 2 110 20 24 1 6 4 | SETTINGS 0 of 0: 3 4; SETTINGS 1 of 0:; "
+                    + "HEADERS 4 of 1: 134; DATA 0 of 1: 4*20; DATA 0 of 1: 4*20; PING 1 of 0: 9 8 7 6");
         }
-        Check.same("what they say", due, "3 2 110 20 24 1 6 4 | SETTINGS 0 of 0: 3 4; SETTINGS 1 of 0:; "
-                + "HEADERS 4 of 1: 134; DATA 0 of 1: 4*20; DATA 0 of 1: 4*20; PING 1 of 0: 9 8 7 6");
-    }
-
-    private static void afterAway() {
-        Talk talk = Talk.withPages();
-        talk.ask(1, Talk.getting('a'));
-        talk.takeAll();
-        talk.frame(Talk.WINDOW, 0, 0, 0, 0);
-        Check.same("away", talk.told(), "AWAY 0 of 0: 1 1");
-        String state = talk.state();
-        talk.frame(Talk.WINDOW, 0, 1, 0, 50);
-        talk.frame(Talk.SETTINGS, 0, 0, 4, 99, 5, 5);
-        talk.ask(3, Talk.getting('a'));
-        talk.bytes(255, 255, 255, 255);
-        Check.same("all is ignored", talk.told(), "");
-        Check.same("nothing changes", talk.state(), state);
-        Check.same("the code stays", talk.server.away(), 1);
-        Check.same("the stream stays", talk.server.stream(1, 1), 20);
-        Check.same("feed of 0", talk.server.feed(1, 0), false);
     }
 }

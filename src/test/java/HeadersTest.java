@@ -1,170 +1,268 @@
-/** Promise 3: HEADERS that come, how streams are opened, refused and closed. */
+/** Promise 3: the row HEADERS of 'Terms': how streams are opened, refused and closed. */
 public final class HeadersTest {
+    private static final int PADDED_WHOLE = Talk.DONE + Talk.END + Talk.PADDED;
+
     public static void main(String[] args) {
-        wrongStreams();
-        padding();
-        longBlocks();
-        unreadBlocks();
-        tooMany();
+        streamZeroOrEven();
+        tooFewBytesForPadding();
+        notAboveTheHighest();
+        clientsSideClosed();
+        oddAndAboveTheHighest();
+        paddingIsNoBlock();
+        longerThanHundred();
+        longerThanHundredByMore();
+        blockIsReadWhenOver();
+        blockCannotBeRead();
+        openAlreadyWithoutEnd();
+        openAlreadyWithColon();
+        openAlreadyGoesOn();
+        openAlreadyWithLengthField();
+        becomesTheHighest();
+        fourOthersAreOpen();
         noRequest();
-        secondHeaders();
-        lengthAtOnce();
+        opens();
+        endClosesClientsSide();
+        firstThatHolds();
         Check.end();
     }
 
-    private static void expectAway(String what, Talk talk, String due) {
-        Check.same(what, talk.told(), "AWAY 0 of 0: " + due);
+    private static void away(String what, Talk talk, String due) {
+        Check.same(what, talk.told() + " " + talk.away(), "AWAY 0 of 0: " + due + due.substring(due.indexOf(' ')));
     }
 
-    private static void wrongStreams() {
-        expectAway("stream 0", Talk.begun().ask(0, Talk.GET, Talk.ROOT), "0 1");
-        expectAway("even", Talk.begun().ask(2, Talk.GET, Talk.ROOT), "0 1");
-
-        Talk over = Talk.begun();
-        over.ask(5, Talk.GET, Talk.ROOT);
-        over.takeAll();
-        expectAway("one that is over", over.ask(5, Talk.GET, Talk.ROOT), "5 5");
-
-        Talk below = Talk.begun();
-        below.ask(5, Talk.GET, Talk.ROOT);
-        below.takeAll();
-        expectAway("one below the highest", below.ask(3, Talk.GET, Talk.ROOT), "5 5");
-
-        Talk closed = Talk.withPages();
-        closed.ask(1, Talk.getting('a'));
-        closed.takeAll();
-        expectAway("its client's side is closed", closed.frame(Talk.HEADERS, 0, 1, 129), "1 5");
-
-        Talk highest = Talk.withPages();
-        highest.ask(255, Talk.getting('a'));
-        Check.same("255", highest.told(), "HEADERS 4 of 255: 134; DATA 0 of 255: 1*40");
-        Check.same("is the highest", highest.server.about(0), 255);
+    /** Stream 1 is open and waits for DATA; its page is empty. */
+    private static Talk open(int[]... more) {
+        return Talk.withPages().askOpen(1, Talk.join(Talk.getting('e'), Talk.join(more)));
     }
 
-    private static void padding() {
-        int flags = Talk.DONE + Talk.END + Talk.PADDED;
-        expectAway("PADDED without bytes", Talk.begun().frame(Talk.HEADERS, flags, 1), "0 1");
-        expectAway("PADDED by 3 of 3", Talk.begun().frame(Talk.HEADERS, flags, 1, 3, 129, 131), "0 1");
-        Talk over = Talk.begun();
-        over.ask(1, Talk.GET, Talk.ROOT);
-        over.takeAll();
-        expectAway("before the stream is looked at", over.frame(Talk.HEADERS, flags, 1), "1 1");
-        Talk talk = Talk.begun();
-        talk.frame(Talk.HEADERS, flags, 1, 3, 129, 131, 16, 16, 16);
-        Check.same("what is no padding", talk.told(), "HEADERS 5 of 1: 135");
-        Check.same("is the block", talk.server.about(7), 2);
-        talk.frame(Talk.HEADERS, flags, 3, 2, 129, 131);
-        Check.same("padding alone: an empty block", talk.told(), "RESET 0 of 3: 1");
-        Check.same("no bytes", talk.server.about(7), 0);
-    }
-
-    private static void longBlocks() {
-        int[] hundred = Talk.join(new int[] {129, 131}, Talk.times(98, 132));
-        Talk talk = Talk.begun();
-        talk.ask(1, hundred);
-        Check.same("100", talk.told(), "HEADERS 5 of 1: 135");
-        Check.same("100 bytes", talk.server.about(7), 100);
-        talk.frame(Talk.HEADERS, Talk.DONE + Talk.PADDED, 3, Talk.join(new int[] {1}, hundred, new int[] {0}));
-        Check.same("100 and padding", talk.server.about(7), 100);
-        expectAway("101", talk.ask(5, Talk.join(hundred, new int[] {132})), "3 9");
-        Check.same("the piece does not count", talk.server.about(7), 0);
-
-        Talk more = Talk.begun();
-        more.frame(Talk.HEADERS, 0, 1, Talk.times(60, 132)).frame(Talk.MORE, 0, 1, Talk.times(40, 132));
-        Check.same("60 and 40", more.server.about(7), 100);
-        more.frame(Talk.MORE, 0, 1);
-        Check.same("and none", more.told(), "");
-        expectAway("and 1", more.frame(Talk.MORE, 0, 1, 132), "0 9");
-        Check.same("the last piece does not count", more.server.about(7), 100);
-    }
-
-    private static void unreadBlocks() {
-        Talk talk = Talk.begun();
-        talk.frame(Talk.HEADERS, 0, 1, 128);
-        Check.same("it is read when it is over", talk.server.away(), 0);
-        expectAway("then", talk.frame(Talk.MORE, Talk.DONE, 1), "0 9");
-        Check.same("its stream is not the highest", talk.server.about(0), 0);
-    }
-
-    private static void tooMany() {
-        Talk talk = Talk.withPages();
-        for (int k = 0; k < 4; k++) {
-            talk.askOpen(1 + 2 * k, Talk.getting('a'));
+    private static void streamZeroOrEven() {
+        Check.of("Terms, HEADERS", "of stream 0 or an even one: AWAY 1");
+        for (int stream : new int[] {0, 2, 4, 254}) {
+            away("of " + stream, Talk.begun().ask(stream, Talk.GET, Talk.ROOT), "0 1");
         }
-        Check.same("four are open", talk.server.about(1), 4);
-        talk.askOpen(9, Talk.join(new int[] {129, 67, 2, '/', 'q'}));
-        Check.same("a fifth", talk.told(), "RESET 0 of 9: 7");
-        Check.same("it is the highest", talk.server.about(0), 9);
-        Check.same("its block was read", talk.entryText(8), ":p=/q");
-        Check.same("four are open still", talk.server.about(1), 4);
-        talk.ask(11, 129);
-        Check.same("a fifth that is no request", talk.told(), "RESET 0 of 11: 7");
-        talk.frame(Talk.HEADERS, Talk.DONE + Talk.END, 3);
-        Check.same("an open one goes on", talk.told(), "HEADERS 4 of 3: 134; DATA 0 of 3: 1*40");
-        talk.frame(Talk.RESET, 0, 3, 0);
-        talk.askOpen(13, Talk.getting('a'));
-        Check.same("a fourth again", talk.told(), "");
-        Check.same("is open", talk.server.stream(13, 0), 40);
+        away("an even one below the highest", Talk.begun().ask(5, Talk.GET, Talk.ROOT).hushed()
+                .ask(4, Talk.GET, Talk.ROOT), "5 1");
+    }
+
+    private static void tooFewBytesForPadding() {
+        Check.of("Terms, HEADERS", "PADDED with too few bytes: AWAY 1");
+        away("no bytes", Talk.begun().frame(Talk.HEADERS, PADDED_WHOLE, 1), "0 1");
+        away("1 of 1", Talk.begun().frame(Talk.HEADERS, PADDED_WHOLE, 1, 1), "0 1");
+        away("3 of 3", Talk.begun().frame(Talk.HEADERS, PADDED_WHOLE, 1, 3, 129, 131), "0 1");
+        away("255 of 200", Talk.begun().frame(Talk.HEADERS, PADDED_WHOLE, 1, Talk.times(200, 255)), "0 1");
+        away("without DONE", Talk.begun().frame(Talk.HEADERS, Talk.PADDED, 1, 1), "0 1");
+        Check.same("2 of 3", Talk.begun().frame(Talk.HEADERS, PADDED_WHOLE, 1, 2, 129, 131).told(), "RESET 0 of 1: 1");
+    }
+
+    private static void notAboveTheHighest() {
+        Check.of("Terms, HEADERS", "of a stream that is not above the highest so far, and not OPEN");
+        away("left out", Talk.begun().ask(5, 129, 131).hushed().ask(3, 129, 131), "5 5");
+        away("over", Talk.begun().ask(5, 129, 131).hushed().ask(5, 129, 131), "5 5");
+        away("no request", Talk.begun().ask(5).hushed().ask(5, 129, 131), "5 5");
+        away("after RESET", open().frame(Talk.RESET, 0, 1, 0).ask(1), "1 5");
+        Talk full = Talk.withPages();
+        for (int s = 1; s <= 9; s += 2) {
+            full.askOpen(s, Talk.getting('a'));
+        }
+        away("refused", full.hushed().askOpen(9, Talk.getting('a')), "9 5");
+    }
+
+    private static void clientsSideClosed() {
+        Check.of("Terms, HEADERS", "or its client's side is CLOSED: AWAY 5");
+        away("with END", Talk.withPages().ask(1, Talk.getting('a')).hushed().ask(1), "1 5");
+        away("at once, without DONE", Talk.withPages().ask(1, Talk.getting('a')).hushed()
+                .frame(Talk.HEADERS, 0, 1, 132), "1 5");
+        away("closed by DATA", Talk.withPages().askOpen(1, Talk.getting('a')).frame(Talk.DATA, Talk.END, 1).hushed()
+                .ask(1), "1 5");
+    }
+
+    private static void oddAndAboveTheHighest() {
+        Check.of("Terms, HEADERS", "of a stream that is not above the highest so far");
+        Talk talk = Talk.begun();
+        for (int stream : new int[] {1, 3, 9, 253, 255}) {
+            talk.ask(stream, 129, 131);
+            Check.same("" + stream, talk.told() + " " + talk.about(0), "HEADERS 5 of " + stream + ": 135 " + stream);
+        }
+    }
+
+    private static void paddingIsNoBlock() {
+        Check.of("Terms, HEADERS", "What is no padding begins a BLOCK");
+        Talk talk = Talk.begun();
+        talk.frame(Talk.HEADERS, PADDED_WHOLE, 1, 3, 129, 131, 16, 16, 16);
+        Check.same("two bytes", talk.told() + " " + talk.about(7), "HEADERS 5 of 1: 135 2");
+        talk.frame(Talk.HEADERS, PADDED_WHOLE, 3, 2, 129, 131);
+        Check.same("padding alone", talk.told() + " " + talk.about(7), "RESET 0 of 3: 1 0");
+        talk.frame(Talk.HEADERS, Talk.PADDED + Talk.END, 5, 1, 129, 0).frame(Talk.MORE, Talk.DONE, 5, 131);
+        Check.same("a block begins anew, MORE goes on", talk.told() + " " + talk.about(7), "HEADERS 5 of 5: 135 2");
+    }
+
+    private static final int[] HUNDRED = Talk.join(new int[] {129, 131}, Talk.times(98, 132));
+
+    private static void longerThanHundred() {
+        Check.of("Terms, HEADERS", "A block longer than 100: AWAY 9");
+        Check.same("100", Talk.begun().ask(1, HUNDRED).told(), "HEADERS 5 of 1: 135");
+        away("101", Talk.begun().ask(1, Talk.join(HUNDRED, new int[] {132})), "0 9");
+        away("101 without DONE", Talk.begun().frame(Talk.HEADERS, 0, 1, Talk.times(101, 132)), "0 9");
+        away("200", Talk.begun().ask(1, Talk.times(200, 132)), "0 9");
+        Check.same("100 and padding", Talk.begun().frame(Talk.HEADERS, PADDED_WHOLE, 1,
+                Talk.join(new int[] {99}, HUNDRED, Talk.times(99, 0))).told(), "HEADERS 5 of 1: 135");
+        away("101 and padding", Talk.begun().frame(Talk.HEADERS, PADDED_WHOLE, 1,
+                Talk.join(new int[] {98}, HUNDRED, Talk.times(99, 132))), "0 9");
+    }
+
+    private static void longerThanHundredByMore() {
+        Check.of("Terms, HEADERS", "A block longer than 100: AWAY 9");
+        Talk talk = Talk.begun();
+        talk.frame(Talk.HEADERS, Talk.END, 1, 129, 131).frame(Talk.MORE, 0, 1, Talk.times(98, 132))
+                .frame(Talk.MORE, 0, 1);
+        Check.same("2 and 98 and 0", talk.told() + talk.away(), "0");
+        Check.same("and 0 with DONE", talk.frame(Talk.MORE, Talk.DONE, 1).told(), "HEADERS 5 of 1: 135");
+        away("2 and 98 and 1", Talk.begun().frame(Talk.HEADERS, 0, 1, 129, 131)
+                .frame(Talk.MORE, 0, 1, Talk.times(98, 132)).frame(Talk.MORE, 0, 1, 132), "0 9");
+        away("1 and 100", Talk.begun().frame(Talk.HEADERS, 0, 1, 129)
+                .frame(Talk.MORE, Talk.DONE, 1, Talk.times(100, 132)), "0 9");
+    }
+
+    private static void blockIsReadWhenOver() {
+        Check.of("Terms, HEADERS", "With DONE the block is over");
+        Talk talk = Talk.begun();
+        talk.frame(Talk.HEADERS, 0, 1, Talk.entering("x", "y"));
+        Check.same("without DONE", talk.state(), "0 0 100 64 24 0 0 5");
+        talk.frame(Talk.MORE, Talk.DONE, 1);
+        Check.same("with DONE", talk.state(), "1 0 100 64 24 1 4 5");
+        Talk bad = Talk.begun().frame(Talk.HEADERS, 0, 1, 128);
+        Check.same("one that cannot be read, without DONE", bad.away(), 0);
+        away("with DONE", bad.frame(Talk.MORE, Talk.DONE, 1), "0 9");
+    }
+
+    private static void blockCannotBeRead() {
+        Check.of("Terms, HEADERS", "it is read (below; AWAY 9 if it cannot be)");
+        Talk talk = Talk.begun().ask(7, 129, 131, 128);
+        away("of a new stream, which is not the highest", talk, "0 9");
+        Check.same("about", talk.about(0, 1), "0 0");
+        Talk opened = open().ask(1, 128);
+        away("of an open one", opened, "1 9");
+        Check.same("it stays open", opened.streamText(1), "40 0 0 0");
+    }
+
+    private static void openAlreadyWithoutEnd() {
+        Check.of("Terms, HEADERS", "Of a stream that is OPEN already: without END (of HEADERS): RESET 1");
+        Talk talk = open().askOpen(1, 132);
+        Check.same("without END", talk.told() + " " + talk.streamText(1), "RESET 0 of 1: 1 not open");
+        Check.same("empty", open().askOpen(1).told(), "RESET 0 of 1: 1");
+        Check.same("END of MORE", open().frame(Talk.HEADERS, 0, 1).frame(Talk.MORE, Talk.DONE + Talk.END, 1).told(),
+                "RESET 0 of 1: 1");
+        Talk read = open().askOpen(1, Talk.entering("x", "y"));
+        Check.same("its block was read", read.came(), "x=y");
+    }
+
+    private static void openAlreadyWithColon() {
+        Check.of("Terms, HEADERS", "a field's name begins with : : RESET 1");
+        for (int first = 129; first <= 135; first++) {
+            boolean colon = first != 132 && first != 133;
+            Check.same("entry " + (first - 128), open().ask(1, first).told(),
+                    colon ? "RESET 0 of 1: 1" : "HEADERS 5 of 1: 134");
+        }
+        Check.same("the first of two", open().ask(1, 129, 132).told(), "RESET 0 of 1: 1");
+        Check.same("the last of two", open().ask(1, 132, 129).told(), "RESET 0 of 1: 1");
+        Check.same(": alone", open().ask(1, Talk.field(":", "")).told(), "RESET 0 of 1: 1");
+        Check.same(": behind a letter", open().ask(1, Talk.field("a:", "")).told(), "HEADERS 5 of 1: 134");
+        Check.same(": in a value", open().ask(1, Talk.field("a", ":")).told(), "HEADERS 5 of 1: 134");
+        Check.same("open no more", open().ask(1, 129).streamText(1), "not open");
+    }
+
+    private static void openAlreadyGoesOn() {
+        Check.of("Terms, HEADERS", "otherwise it goes on as DATA with END would that has no bytes");
+        Check.same("a field", open().ask(1, 132).told(), "HEADERS 5 of 1: 134");
+        Check.same("empty", open().ask(1).told(), "HEADERS 5 of 1: 134");
+        Check.same("names of other characters", open().ask(1, Talk.field("A-9", "x")).told(), "HEADERS 5 of 1: 134");
+        Check.same("in pieces", open().frame(Talk.HEADERS, Talk.END, 1, 132).frame(Talk.MORE, Talk.DONE, 1, 132).told(),
+                "HEADERS 5 of 1: 134");
+        Talk body = Talk.withPages().askOpen(1, Talk.getting('a')).frame(Talk.DATA, 0, 1, 9).hushed().ask(1, 132);
+        Check.same("a body", body.told() + " " + body.streamText(1),
+                "HEADERS 4 of 1: 134; DATA 0 of 1: 1*40 0 20 1 1");
+        Talk lower = open().askOpen(5, Talk.getting('a')).ask(1);
+        Check.same("the highest stays", lower.told() + " " + lower.about(0, 1), "HEADERS 5 of 1: 134 5 1");
+    }
+
+    private static void openAlreadyWithLengthField() {
+        Check.of("Terms, HEADERS", "otherwise it goes on as DATA with END would that has no bytes");
+        int[] two = Talk.field("length", "2");
+        Check.same("2 said, none came", open(two).ask(1).told(), "RESET 0 of 1: 1");
+        Check.same("2 said, 2 came", open(two).frame(Talk.DATA, 0, 1, 5, 5).hushed().ask(1).told(),
+                "HEADERS 5 of 1: 134");
+        Check.same("2 said, 3 came", open(two).frame(Talk.DATA, 0, 1, 5, 5, 5).hushed().ask(1).told(),
+                "RESET 0 of 1: 1");
+        Check.same("said there alone, it says nothing", open().ask(1, two).told(), "HEADERS 5 of 1: 134");
+    }
+
+    private static void becomesTheHighest() {
+        Check.of("Terms, HEADERS", "Of a new one: it is the highest now");
+        Talk talk = Talk.begun().frame(Talk.HEADERS, 0, 9, 129);
+        Check.same("before its block is over", talk.about(0), 0);
+        Check.same("then", talk.frame(Talk.MORE, Talk.DONE, 9, 131).about(0), 9);
+        Check.same("though it is no request", Talk.begun().askOpen(7).about(0), 7);
+        Check.same("1", Talk.begun().askOpen(1, 129, 131).about(0), 1);
+        Check.same("255", Talk.begun().askOpen(255, 129, 131).about(0), 255);
+    }
+
+    private static void fourOthersAreOpen() {
+        Check.of("Terms, HEADERS", "4 others are OPEN: RESET 7");
+        Talk talk = Talk.withPages();
+        for (int s = 1; s <= 7; s += 2) {
+            talk.askOpen(s, Talk.getting('a'));
+            Check.same("stream " + s, talk.told() + talk.streamText(s), "40 0 0 0");
+        }
+        talk.askOpen(9, 129, 67, 2, '/', 'q');
+        Check.same("a fifth", talk.told() + " " + talk.about(0, 1), "RESET 0 of 9: 7 9 4");
+        Check.same("its block was read", talk.came(), ":p=/q");
+        Check.same("with END", talk.ask(11, Talk.getting('e')).told(), "RESET 0 of 11: 7");
+        talk.frame(Talk.RESET, 0, 3, 0).askOpen(13, Talk.getting('a'));
+        Check.same("a fourth again", talk.told() + talk.streamText(13), "40 0 0 0");
+        Check.same("and a fifth", talk.askOpen(15, Talk.getting('a')).told(), "RESET 0 of 15: 7");
+        talk.frame(Talk.HEADERS, Talk.DONE + Talk.END, 5);
+        Check.same("those that are open go on", talk.told(), "HEADERS 4 of 5: 134; DATA 0 of 5: 1*40");
     }
 
     private static void noRequest() {
-        Talk talk = Talk.begun();
-        talk.askOpen(7, 129);
-        Check.same("no request", talk.told(), "RESET 0 of 7: 1");
-        Check.same("it is the highest", talk.server.about(0), 7);
-        Check.same("none is open", talk.server.about(1), 0);
-        talk.ask(9);
-        Check.same("an empty block", talk.told(), "RESET 0 of 9: 1");
-        talk.ask(11, 131, 129, 132);
-        Check.same("then a request", talk.told(), "HEADERS 5 of 11: 135");
+        Check.of("Terms, HEADERS", "no REQUEST: RESET 1");
+        Talk talk = Talk.begun().askOpen(7, 129);
+        Check.same("no path", talk.told() + " " + talk.about(0, 1), "RESET 0 of 7: 1 7 0");
+        Check.same("an empty block", talk.ask(9).told(), "RESET 0 of 9: 1");
+        Check.same("then a request", talk.ask(11, 131, 129).told(), "HEADERS 5 of 11: 135");
     }
 
-    private static void secondHeaders() {
-        Talk talk = open("");
-        talk.ask(1, 132);
-        Check.same("with END it is answered", talk.told(), "HEADERS 5 of 1: 134");
-        Check.same("and over", talk.server.about(1), 0);
-        Check.same("empty", open("").ask(1).told(), "HEADERS 5 of 1: 134");
-        Check.same("without END", open("").askOpen(1, 132).told(), "RESET 0 of 1: 1");
-        Check.same("a name with :", open("").ask(1, 132, 134).told(), "RESET 0 of 1: 1");
-        Check.same("a name : in front of others", open("").ask(1, 129, 132).told(), "RESET 0 of 1: 1");
-        Check.same("names of other characters", open("").ask(1, Talk.field("A:9", "x")).told(),
+    private static void opens() {
+        Check.of("Terms, HEADERS", "Otherwise it is OPEN");
+        Talk talk = Talk.begun().askOpen(1, 129, 131);
+        Check.same("open", talk.told() + talk.about(0, 1) + " | " + talk.streamText(1), "1 1 | 40 0 0 0");
+    }
+
+    private static void endClosesClientsSide() {
+        Check.of("Terms, HEADERS", "with END its client's side is CLOSED: it goes on likewise");
+        Talk talk = Talk.withPages().ask(1, Talk.getting('a'));
+        Check.same("closed", talk.streamText(1), "0 20 0 1");
+        Check.same("answered", talk.told(), "HEADERS 4 of 1: 134; DATA 0 of 1: 1*40");
+        Check.same("a length of 1", Talk.withPages().ask(1, Talk.join(Talk.getting('a'), Talk.field("length", "1"))).told(),
+                "RESET 0 of 1: 1");
+        Check.same("a length of 0", Talk.withPages().ask(1, Talk.join(Talk.getting('e'), Talk.field("length", "0"))).told(),
                 "HEADERS 5 of 1: 134");
-        Check.same("a length there says nothing", open("").ask(1, Talk.field("length", "77")).told(),
-                "HEADERS 5 of 1: 134");
-        Check.same("it cannot be read", open("").ask(1, 128).told(), "AWAY 0 of 0: 1 9");
-        Check.same("the length is wrong", open("2").ask(1).told(), "RESET 0 of 1: 1");
-        Talk counted = open("2");
-        counted.frame(Talk.DATA, 0, 1, 5, 5);
-        counted.takeAll();
-        Check.same("the length is right", counted.ask(1).told(), "HEADERS 5 of 1: 134");
-
-        Talk entering = open("");
-        entering.askOpen(1, Talk.entering("x", "y"));
-        Check.same("it is read though it is refused", entering.entryText(8), "x=y");
-        Check.same("open no more", entering.server.about(1), 0);
-
-        Talk pieces = open("");
-        pieces.frame(Talk.HEADERS, Talk.END, 1, 132).frame(Talk.MORE, Talk.DONE, 1, 132);
-        Check.same("in pieces", pieces.told(), "HEADERS 5 of 1: 134");
-        Talk highest = open("");
-        highest.askOpen(5, Talk.getting('a')).ask(1);
-        Check.same("the highest stays", highest.server.about(0), 5);
     }
 
-    private static Talk open(String length) {
-        Talk talk = Talk.withPages();
-        int[] block = Talk.getting('e');
-        talk.askOpen(1, length.isEmpty() ? block : Talk.join(block, Talk.field("length", length)));
-        Check.same("open", talk.server.stream(1, 3), 0);
-        return talk;
-    }
-
-    private static void lengthAtOnce() {
-        Talk talk = Talk.withPages();
-        talk.ask(1, Talk.join(Talk.getting('a'), Talk.field("length", "1")));
-        Check.same("END, and a length of 1", talk.told(), "RESET 0 of 1: 1");
-        talk.ask(3, Talk.join(Talk.getting('e'), Talk.field("length", "0")));
-        Check.same("END, and a length of 0", talk.told(), "HEADERS 5 of 3: 134");
+    private static void firstThatHolds() {
+        Check.of("Terms, A FRAME", "the first that holds");
+        away("padding, of one that is over", Talk.begun().ask(1, 129, 131).hushed()
+                .frame(Talk.HEADERS, PADDED_WHOLE, 1), "1 1");
+        away("101 bytes of one that is over", Talk.begun().ask(1, 129, 131).hushed()
+                .ask(1, Talk.times(101, 132)), "1 5");
+        away("101 bytes of an even one", Talk.begun().ask(2, Talk.times(101, 132)), "0 1");
+        away("101 bytes that cannot be read", Talk.begun().ask(1, Talk.times(101, 128)), "0 9");
+        Talk full = Talk.withPages();
+        for (int s = 1; s <= 7; s += 2) {
+            full.askOpen(s, Talk.getting('a'));
+        }
+        Check.same("a fifth that is no request", full.ask(9, 129).told(), "RESET 0 of 9: 7");
+        away("a fifth that cannot be read", full.ask(11, 128), "9 9");
+        away("an open one, without END, that cannot be read", open().askOpen(1, 129, 128), "1 9");
     }
 }

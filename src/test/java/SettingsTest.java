@@ -1,88 +1,194 @@
-/** Promise 3: SETTINGS that come. */
+/** Promise 3: the row SETTINGS of 'Terms'. */
 public final class SettingsTest {
     public static void main(String[] args) {
-        wrong();
-        windows();
-        longest();
-        others();
+        notOfStreamZero();
+        ackWithLength();
+        ackDoesNothing();
+        oddLength();
+        noPairs();
+        windowsOfOpenStreams();
+        windowsBelowZero();
+        newStreamsBeginWithIt();
+        leastAndMostFirstWindow();
+        windowsHaveNoMost();
+        longestFrame();
+        longestBelowSixteen();
+        pairAfterPair();
+        otherNumbers();
+        ackIsSent();
+        firstThatHolds();
         Check.end();
     }
 
-    private static void expect(String what, String due, int flags, int stream, int... body) {
+    private static void away(String what, Talk talk, int code) {
+        Check.same(what, talk.told() + " " + talk.away(), "AWAY 0 of 0: 0 " + code + " " + code);
+    }
+
+    private static void notOfStreamZero() {
+        Check.of("Terms, SETTINGS", "not of stream 0: AWAY 1");
+        for (int stream : new int[] {1, 2, 255}) {
+            away("of " + stream, Talk.begun().frame(Talk.SETTINGS, 0, stream), 1);
+            away("of " + stream + " with ACK", Talk.begun().frame(Talk.SETTINGS, Talk.ACK, stream), 1);
+        }
+    }
+
+    private static void ackWithLength() {
+        Check.of("Terms, SETTINGS", "with ACK: a length above 0: AWAY 6, else nothing");
+        for (int length : new int[] {1, 2, 200}) {
+            away("" + length, Talk.begun().frame(Talk.SETTINGS, Talk.ACK, 0, Talk.times(length, 4)), 6);
+        }
+    }
+
+    private static void ackDoesNothing() {
+        Check.of("Terms, SETTINGS", "a length above 0: AWAY 6, else nothing");
+        Talk talk = Talk.withPages().ask(1, Talk.getting('a'));
+        String before = talk.all();
+        Check.same("all", talk.frame(Talk.SETTINGS, Talk.ACK, 0).all(), before);
+    }
+
+    private static void oddLength() {
+        Check.of("Terms, SETTINGS", "an odd length: AWAY 6");
+        for (int length : new int[] {1, 3, 5, 199}) {
+            away("" + length, Talk.begun().settings(Talk.times(length, 6)), 6);
+        }
+        Talk talk = Talk.withPages().askOpen(1, Talk.getting('a')).settings(4, 50, 5, 20, 4);
+        Check.same("its pairs are not taken", talk.stream(1, 0) + " " + talk.about(3), "40 64");
+    }
+
+    private static void noPairs() {
+        Check.of("Terms, SETTINGS", "Then SETTINGS with ACK are sent");
         Talk talk = Talk.begun();
-        talk.frame(Talk.SETTINGS, flags, stream, body);
-        Check.same(what, talk.told(), due);
+        String before = talk.state();
+        talk.settings();
+        Check.same("no pairs", talk.told() + " " + talk.state(), "SETTINGS 1 of 0: " + before);
+        Talk most = Talk.begun().settings(Talk.times(200, 6));
+        Check.same("100 pairs", most.told(), "SETTINGS 1 of 0:");
+        Talk last = Talk.begun().settings(Talk.join(Talk.times(198, 6), new int[] {5, 33}));
+        Check.same("the last of 100 pairs", last.told() + last.about(3), "SETTINGS 1 of 0:33");
     }
 
-    private static void wrong() {
-        expect("not of stream 0", "AWAY 0 of 0: 0 1", 0, 1);
-        expect("not of stream 0, an odd length", "AWAY 0 of 0: 0 1", 0, 1, 4);
-        expect("not of stream 0, with ACK", "AWAY 0 of 0: 0 1", Talk.ACK, 1);
-        expect("ACK and a length", "AWAY 0 of 0: 0 6", Talk.ACK, 0, 4, 4);
-        expect("ACK and a length of 1", "AWAY 0 of 0: 0 6", Talk.ACK, 0, 4);
-        expect("ACK", "", Talk.ACK, 0);
-        expect("an odd length", "AWAY 0 of 0: 0 6", 0, 0, 4);
-        expect("an odd length of 3", "AWAY 0 of 0: 0 6", 0, 0, 4, 50, 5);
-        expect("none", "SETTINGS 1 of 0:", 0, 0);
-        Talk odd = Talk.withPages();
-        odd.askOpen(1, Talk.getting('a')).frame(Talk.SETTINGS, 0, 0, 4, 50, 5);
-        Check.same("an odd length changes nothing", odd.server.stream(1, 0), 40);
-    }
-
-    private static void windows() {
+    private static void windowsOfOpenStreams() {
+        Check.of("Terms, SETTINGS", "the windows of all open streams change by the value less the one before (40 at first)");
         Talk talk = Talk.withPages();
-        talk.askOpen(1, Talk.getting('a')).ask(3, Talk.getting('b'));
-        talk.takeAll();
-        talk.frame(Talk.SETTINGS, 0, 0, 4, 30);
-        Check.same("less", talk.told(), "SETTINGS 1 of 0:");
-        Check.same("of one that is not answered", talk.server.stream(1, 0), 30);
-        Check.same("below 0", talk.server.stream(3, 0), -10);
-        talk.askOpen(5, Talk.getting('a'));
-        Check.same("new ones begin with it", talk.server.stream(5, 0), 30);
-        Check.same("the connection's is as it was", talk.server.about(2), 60);
-        talk.frame(Talk.SETTINGS, 0, 0, 4, 45);
-        Check.same("more, and DATA behind", talk.told(), "SETTINGS 1 of 0:; DATA 0 of 3: 2*5");
-        Check.same("by the value less the one before", talk.server.stream(1, 0), 45);
-        talk.frame(Talk.SETTINGS, 0, 0, 4, 0, 4, 255);
-        Check.same("one pair after the other", talk.told(), "SETTINGS 1 of 0:; DATA 1 of 3: 2*15");
-        Check.same("the last counts", talk.server.stream(5, 0), 255);
-        Talk none = Talk.withPages();
-        none.frame(Talk.SETTINGS, 0, 0, 4, 0).ask(1, Talk.getting('a'));
-        Check.same("a first window of 0", none.told(), "SETTINGS 1 of 0:; HEADERS 4 of 1: 134");
-
-        Talk above = Talk.withPages();
-        above.askOpen(1, Talk.getting('a')).frame(Talk.WINDOW, 0, 1, 29960 / 256, 29960 % 256);
-        above.takeAll();
-        above.frame(Talk.SETTINGS, 0, 0, 4, 255);
-        Check.same("no limit is told here", above.told() + " " + above.server.stream(1, 0),
-                "SETTINGS 1 of 0: 30215");
+        for (int s = 1; s <= 7; s += 2) {
+            talk.askOpen(s, Talk.getting('a'));
+        }
+        talk.widen(3, 5).settings(4, 41);
+        Check.same("by 1", windows(talk), "41 46 41 41");
+        talk.settings(4, 41);
+        Check.same("by 0", windows(talk), "41 46 41 41");
+        talk.settings(4, 30);
+        Check.same("by -11", windows(talk), "30 35 30 30");
+        talk.settings(4, 255);
+        Check.same("by 225", windows(talk), "255 260 255 255");
+        Check.same("the connection's is as it was", talk.about(2), 100);
+        Talk same = Talk.withPages().askOpen(1, Talk.getting('a')).settings(4, 40);
+        Check.same("40 first", same.stream(1, 0), 40);
     }
 
-    private static void longest() {
+    private static String windows(Talk talk) {
+        return talk.stream(1, 0) + " " + talk.stream(3, 0) + " " + talk.stream(5, 0) + " " + talk.stream(7, 0);
+    }
+
+    private static void windowsBelowZero() {
+        Check.of("Terms, SETTINGS", "the windows of all open streams change by the value less the one before");
+        Talk talk = Talk.withPages().ask(1, Talk.getting('a')).hushed();
+        talk.settings(4, 0);
+        Check.same("below 0", talk.told() + talk.streamText(1), "SETTINGS 1 of 0:-40 20 0 1");
+        talk.settings(4, 40);
+        Check.same("back to 0", talk.told() + talk.streamText(1), "SETTINGS 1 of 0:0 20 0 1");
+        talk.settings(4, 41);
+        Check.same("to 1, which is sent", talk.told(), "SETTINGS 1 of 0:; DATA 0 of 1: 1");
+    }
+
+    private static void newStreamsBeginWithIt() {
+        Check.of("Terms, SETTINGS", "new ones begin with it");
+        Talk talk = Talk.withPages().settings(4, 7).askOpen(1, Talk.getting('a')).settings(4, 9)
+                .askOpen(3, Talk.getting('a'));
+        Check.same("9 and 9", talk.stream(1, 0) + " " + talk.stream(3, 0), "9 9");
+        talk.frame(Talk.RESET, 0, 1, 0).askOpen(5, Talk.getting('a'));
+        Check.same("in the place of one that went", talk.stream(5, 0), 9);
+    }
+
+    private static void leastAndMostFirstWindow() {
+        Check.of("Terms, SETTINGS", "new ones begin with it");
+        Talk none = Talk.withPages().settings(4, 0).hushed().ask(1, Talk.getting('a'));
+        Check.same("0", none.told() + " " + none.streamText(1), "HEADERS 4 of 1: 134 0 60 0 1");
+        Talk most = Talk.withPages().settings(4, 255).hushed().ask(1, Talk.getting('a'));
+        Check.same("255", most.told(), "HEADERS 4 of 1: 134; DATA 1 of 1: 1*60");
+    }
+
+    private static void windowsHaveNoMost() {
+        Check.of("Terms, SETTINGS", "the windows of all open streams change by the value less the one before");
+        Talk talk = Talk.withPages().askOpen(1, Talk.getting('a')).widen(1, 29960).settings(4, 255);
+        Check.same("above 30000", talk.told() + talk.stream(1, 0), "SETTINGS 1 of 0:30215");
+    }
+
+    private static void longestFrame() {
+        Check.of("Terms, SETTINGS", "the LONGEST frame of DATA is the value (64 at first)");
         Talk talk = Talk.withPages();
-        talk.frame(Talk.SETTINGS, 0, 0, 5, 16);
-        Check.same("16", talk.told() + " " + talk.server.about(3), "SETTINGS 1 of 0: 16");
+        Check.same("at first", talk.about(3), 64);
+        for (int value : new int[] {16, 17, 64, 200, 201, 255, 16}) {
+            talk.settings(5, value);
+            Check.same("" + value, talk.told() + talk.about(3), "SETTINGS 1 of 0:" + value);
+        }
         talk.ask(1, Talk.getting('a'));
         Check.same("DATA of at most 16", talk.told(),
                 "HEADERS 4 of 1: 134; DATA 0 of 1: 1*16; DATA 0 of 1: 1*16; DATA 0 of 1: 1*8");
-        talk.frame(Talk.SETTINGS, 0, 0, 5, 255, 5, 200);
-        Check.same("200", talk.told() + " " + talk.server.about(3), "SETTINGS 1 of 0: 200");
-        talk.frame(Talk.SETTINGS, 0, 0, 4, 50, 5, 15, 4, 60);
-        Check.same("15", talk.told(), "AWAY 0 of 0: 1 1");
-        Check.same("it was not taken", talk.server.about(3), 200);
-        Check.same("the pair before was, the one behind not", talk.server.stream(1, 0), 10);
-        expect("0", "AWAY 0 of 0: 0 1", 0, 0, 5, 0);
     }
 
-    private static void others() {
-        Talk talk = Talk.withPages();
-        talk.askOpen(1, Talk.getting('a'));
-        String state = talk.state();
-        talk.frame(Talk.SETTINGS, 0, 0, 0, 1, 1, 1, 2, 2, 3, 1, 6, 9, 255, 0);
-        Check.same("others are ignored", talk.told(), "SETTINGS 1 of 0:");
-        Check.same("nothing changed", talk.state() + " " + talk.server.stream(1, 0), state + " 40");
-        talk.frame(Talk.PING, Talk.ACK, 0, 4, 99, 5, 99).frame(Talk.SETTINGS, 0, 0);
-        Check.same("bytes of the frame before are no pairs", talk.state() + " " + talk.server.stream(1, 0),
-                state + " 40");
+    private static void longestBelowSixteen() {
+        Check.of("Terms, SETTINGS", "below 16: AWAY 1");
+        for (int value : new int[] {0, 1, 15}) {
+            Talk talk = Talk.begun().settings(5, value);
+            away("" + value, talk, 1);
+            Check.same("after " + value, talk.about(3), 64);
+        }
+        Check.same("16", Talk.begun().settings(5, 16).away(), 0);
+    }
+
+    private static void pairAfterPair() {
+        Check.of("Terms, SETTINGS", "One pair after the other");
+        Talk talk = Talk.withPages().askOpen(1, Talk.getting('a')).settings(4, 0, 5, 20, 4, 33, 5, 70);
+        Check.same("the last ones count", talk.told() + talk.stream(1, 0) + " " + talk.about(3), "SETTINGS 1 of 0:33 70");
+        talk.settings(4, 50, 5, 15, 4, 60, 5, 80);
+        Check.same("one that is against the rules", talk.told(), "AWAY 0 of 0: 1 1");
+        Check.same("those before it hold, those behind it do not", talk.stream(1, 0) + " " + talk.about(3), "50 70");
+    }
+
+    private static void otherNumbers() {
+        Check.of("Terms, SETTINGS", "others are ignored");
+        Talk talk = Talk.withPages().askOpen(1, Talk.getting('a'));
+        String before = talk.state() + " " + talk.streamText(1);
+        for (int number = 0; number <= 255; number++) {
+            if (number != 4 && number != 5) {
+                talk.frame(Talk.SETTINGS, 0, 0, number, 0);
+                talk.take(4);
+            }
+            if (talk.calls() > 480) {
+                Check.same("up to " + number, talk.state() + " " + talk.streamText(1), before);
+                talk = Talk.withPages().askOpen(1, Talk.getting('a'));
+            }
+        }
+        Check.same("up to 255", talk.state() + " " + talk.streamText(1), before);
+        talk.settings(3, 0, 6, 255, 4, 44);
+        Check.same("those behind them hold", talk.stream(1, 0), 44);
+    }
+
+    private static void ackIsSent() {
+        Check.of("Terms, SETTINGS", "Then SETTINGS with ACK are sent");
+        Talk talk = Talk.withPages().ask(1, Talk.getting('a')).hushed().settings(4, 45);
+        Check.same("before DATA", talk.told(), "SETTINGS 1 of 0:; DATA 0 of 1: 1*5");
+        talk.frame(Talk.PING, Talk.ACK, 0, 4, 99, 5, 99).settings();
+        Check.same("bytes of the frame before are no pairs", talk.told() + talk.streamText(1) + " " + talk.about(3),
+                "SETTINGS 1 of 0:0 15 0 1 64");
+    }
+
+    private static void firstThatHolds() {
+        Check.of("Terms, A FRAME", "the first that holds");
+        away("an odd length, not of stream 0", Talk.begun().frame(Talk.SETTINGS, 0, 1, 4), 1);
+        away("ACK and a length, not of stream 0", Talk.begun().frame(Talk.SETTINGS, Talk.ACK, 1, 4), 1);
+        away("an odd length with a pair below 16", Talk.begun().settings(5, 1, 4), 6);
+        away("ACK with a pair below 16", Talk.begun().frame(Talk.SETTINGS, Talk.ACK, 0, 5, 1), 6);
     }
 }

@@ -1,5 +1,7 @@
 import java.util.ArrayList;
+import java.util.Arrays;
 import java.util.List;
+import java.util.NoSuchElementException;
 
 /** A client's side of a talk with a server: puts frames together and reads what comes back. */
 final class Talk {
@@ -17,12 +19,17 @@ final class Talk {
     static final int DONE = 4;
     static final int PADDED = 8;
 
-    /** Fields of blocks: :m GET, :m HEAD, :p / */
+    /** Fields of blocks: :m GET, :m HEAD, :p / and host with an empty value. */
     static final int GET = 129;
     static final int HEAD = 130;
     static final int ROOT = 131;
+    static final int HOST = 132;
 
-    final PageServer server = new PageServer();
+    /** What the document promises of one object ends behind so many calls. */
+    static final int MOST_CALLS = 512;
+
+    private final PageServer server = new PageServer();
+    private int calls;
 
     /** A talk whose preface and first SETTINGS are over, with nothing waiting. */
     static Talk begun() {
@@ -34,19 +41,78 @@ final class Talk {
     /** As begun, with the pages / (50 bytes 7), /a (60 bytes 1), /b (60 bytes 2) and /e (empty). */
     static Talk withPages() {
         Talk talk = new Talk();
-        talk.server.page(0, 0, 50, 7);
-        talk.server.page('a', 0, 60, 1);
-        talk.server.page('b', 0, 60, 2);
-        talk.server.page('e', 0, 0, 3);
+        talk.page(0, 0, 50, 7);
+        talk.page('a', 0, 60, 1);
+        talk.page('b', 0, 60, 2);
+        talk.page('e', 0, 0, 3);
         talk.begin();
         return talk;
     }
 
     void begin() {
-        bytes(80, 82, 73, 10);
-        frame(SETTINGS, 0, 0);
+        preface().frame(SETTINGS, 0, 0);
         takeAll();
     }
+
+    Talk preface() {
+        return bytes(80, 82, 73, 10);
+    }
+
+    // ---- the calls of the face, counted
+
+    private PageServer counted() {
+        calls++;
+        if (calls == MOST_CALLS + 1) {
+            Check.same("calls of one object", "more than 512", "at most 512");
+        }
+        return server;
+    }
+
+    int calls() {
+        return calls;
+    }
+
+    int page(int path, int more, int size, int b) {
+        return counted().page(path, more, size, b);
+    }
+
+    boolean feed(int word, int n) {
+        return counted().feed(word, n);
+    }
+
+    void restart() {
+        counted().restart();
+    }
+
+    int waiting() {
+        return counted().waiting();
+    }
+
+    int out(int k) {
+        return counted().out(k);
+    }
+
+    void take(int n) {
+        counted().take(n);
+    }
+
+    int away() {
+        return counted().away();
+    }
+
+    int about(int what) {
+        return counted().about(what);
+    }
+
+    int stream(int s, int what) {
+        return counted().stream(s, what);
+    }
+
+    int entry(int k, int part, int j) {
+        return counted().entry(k, part, j);
+    }
+
+    // ---- what the client says
 
     Talk bytes(int... bytes) {
         for (int at = 0; at < bytes.length; at += 4) {
@@ -55,19 +121,13 @@ final class Talk {
             for (int k = 0; k < n; k++) {
                 word = word << 8 | bytes[at + k];
             }
-            Check.same("feed", server.feed(word, n), true);
+            Check.same("feed", feed(word, n), true);
         }
         return this;
     }
 
     Talk frame(int type, int flags, int stream, int... body) {
-        int[] whole = new int[4 + body.length];
-        whole[0] = body.length;
-        whole[1] = type;
-        whole[2] = flags;
-        whole[3] = stream;
-        System.arraycopy(body, 0, whole, 4, body.length);
-        return bytes(whole);
+        return bytes(join(new int[] {body.length, type, flags, stream}, body));
     }
 
     /** HEADERS with DONE and END. */
@@ -80,6 +140,25 @@ final class Talk {
         return frame(HEADERS, DONE, stream, block);
     }
 
+    Talk ping() {
+        return frame(PING, 0, 0, 1, 2, 3, 4);
+    }
+
+    /** WINDOW by this number. */
+    Talk widen(int stream, int by) {
+        return frame(WINDOW, 0, stream, by / 256, by % 256);
+    }
+
+    Talk settings(int... pairs) {
+        return frame(SETTINGS, 0, 0, pairs);
+    }
+
+    /** Takes what waits, to hear alone what comes then. */
+    Talk hushed() {
+        takeAll();
+        return this;
+    }
+
     /** A block of GET and the path / and one letter, none of which becomes an entry. */
     static int[] getting(int letter) {
         return new int[] {GET, 3, 2, '/', letter};
@@ -87,7 +166,7 @@ final class Talk {
 
     static int[] times(int n, int b) {
         int[] all = new int[n];
-        java.util.Arrays.fill(all, b);
+        Arrays.fill(all, b);
         return all;
     }
 
@@ -125,16 +204,24 @@ final class Talk {
         return join(new int[] {64}, text(name), text(value));
     }
 
+    // ---- what the server says
+
     void takeAll() {
-        server.take(server.waiting());
+        take(Integer.MAX_VALUE);
+    }
+
+    private List<Integer> heard() {
+        List<Integer> all = new ArrayList<>();
+        int waiting = waiting();
+        for (int k = 0; k < waiting; k++) {
+            all.add(out(k));
+        }
+        return all;
     }
 
     /** All bytes that wait, which are taken. */
     List<Integer> said() {
-        List<Integer> all = new ArrayList<>();
-        for (int k = 0; k < server.waiting(); k++) {
-            all.add(server.out(k));
-        }
+        List<Integer> all = heard();
         takeAll();
         return all;
     }
@@ -145,7 +232,7 @@ final class Talk {
         StringBuilder text = new StringBuilder();
         int at = 0;
         while (at + 4 <= bytes.size()) {
-            int end = at + 4 + bytes.get(at);
+            int end = Math.min(at + 4 + bytes.get(at), bytes.size());
             if (text.length() > 0) {
                 text.append("; ");
             }
@@ -187,13 +274,29 @@ final class Talk {
         }
     }
 
+    // ---- what the server tells of itself
+
     /** The state that about tells, as one text. */
     String state() {
+        return about(0, 7);
+    }
+
+    /** What about tells, from one what to another. */
+    String about(int from, int to) {
         StringBuilder text = new StringBuilder();
-        for (int what = 0; what <= 7; what++) {
-            text.append(what > 0 ? " " : "").append(server.about(what));
+        for (int what = from; what <= to; what++) {
+            text.append(what > from ? " " : "").append(about(what));
         }
         return text.toString();
+    }
+
+    /** All that is told of an open stream; "not open" of another. */
+    String streamText(int s) {
+        try {
+            return stream(s, 0) + " " + stream(s, 1) + " " + stream(s, 2) + " " + stream(s, 3);
+        } catch (NoSuchElementException e) {
+            return "not open";
+        }
     }
 
     String entryText(int k) {
@@ -204,11 +307,35 @@ final class Talk {
         StringBuilder text = new StringBuilder();
         for (int j = 0; j < 30; j++) {
             try {
-                text.append((char) server.entry(k, part, j));
-            } catch (java.util.NoSuchElementException e) {
+                text.append((char) entry(k, part, j));
+            } catch (NoSuchElementException e) {
                 return text.toString();
             }
         }
         return text.toString();
+    }
+
+    /** The entries that came, the newest first. */
+    String came() {
+        StringBuilder text = new StringBuilder();
+        int last = 7 + about(5);
+        for (int k = 8; k <= last; k++) {
+            text.append(k > 8 ? " " : "").append(entryText(k));
+        }
+        return text.toString();
+    }
+
+    /** All that can be told without changing anything. */
+    String all() {
+        StringBuilder text = new StringBuilder();
+        text.append("away ").append(away()).append(", about ").append(state());
+        int highest = about(0);
+        for (int s = 1; s <= highest; s += 2) {
+            String told = streamText(s);
+            if (!told.equals("not open")) {
+                text.append(", stream ").append(s).append(": ").append(told);
+            }
+        }
+        return text.append(", entries ").append(came()).append(", waiting ").append(heard()).toString();
     }
 }
