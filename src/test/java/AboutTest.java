@@ -1,18 +1,17 @@
 /** Promise 9: about. */
 public final class AboutTest {
     public static void main(String[] args) {
-        highestStream();
-        howManyAreOpen();
-        connectionsWindow();
-        longestFrame();
-        size();
-        howManyEntries();
-        whatEntriesTake();
-        bytesOfLatestBlock();
-        pieceThatDoesNotCount();
-        blockThatDoesNotBegin();
-        anotherWhat();
-        Check.end();
+        Check.run(AboutTest::highestStream,
+                AboutTest::howManyAreOpen,
+                AboutTest::connectionsWindow,
+                AboutTest::longestFrame,
+                AboutTest::size,
+                AboutTest::howManyEntries,
+                AboutTest::whatEntriesTake,
+                AboutTest::bytesOfLatestBlock,
+                AboutTest::pieceThatDoesNotCount,
+                AboutTest::blockThatDoesNotBegin,
+                AboutTest::anotherWhat);
     }
 
     private static void highestStream() {

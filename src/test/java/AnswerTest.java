@@ -4,14 +4,13 @@ public final class AnswerTest {
     private static final String OTHER_METHOD = "HEADERS 5 of 1: 6 3 52 48 53 | 0";
 
     public static void main(String[] args) {
-        aPage();
-        noPage();
-        anotherMethod();
-        endIfHead();
-        endIfThereIsNoPage();
-        endIfItsBodyIsEmpty();
-        bodyIsToBeSent();
-        Check.end();
+        Check.run(AnswerTest::aPage,
+                AnswerTest::noPage,
+                AnswerTest::anotherMethod,
+                AnswerTest::endIfHead,
+                AnswerTest::endIfThereIsNoPage,
+                AnswerTest::endIfItsBodyIsEmpty,
+                AnswerTest::bodyIsToBeSent);
     }
 
     /** What is said, and how many streams are open then. */

@@ -9,13 +9,20 @@ public final class AnyCallsTest {
     private static final int LAST_STEP = 390;
 
     public static void main(String[] args) {
+        Check.run(AnyCallsTest::nothingElseIsThrown,
+                AnyCallsTest::questionsChangeNothing);
+    }
+
+    private static void nothingElseIsThrown() {
         for (int seed = 0; seed < RUNS; seed++) {
             anyCalls(new Random(seed), seed);
         }
+    }
+
+    private static void questionsChangeNothing() {
         for (int seed = 0; seed < RUNS; seed++) {
             questionsChangeNothing(seed);
         }
-        Check.end();
     }
 
     private static Talk begin(Random random) {
@@ -27,7 +34,7 @@ public final class AnyCallsTest {
     }
 
     private static void anyCalls(Random random, int seed) {
-        Check.of("Promises 1 to 11", "Nothing is promised beyond the answers and state changes described above");
+        Check.of("Not promised", "Nothing is promised beyond the answers and state changes described above");
         Talk talk = begin(random);
         while (talk.calls() < LAST_STEP) {
             try {

@@ -1,11 +1,10 @@
 /** Promise 8: away. */
 public final class AwayTest {
     public static void main(String[] args) {
-        noAway();
-        eachCode();
-        itStays();
-        clientsAway();
-        Check.end();
+        Check.run(AwayTest::noAway,
+                AwayTest::eachCode,
+                AwayTest::itStays,
+                AwayTest::clientsAway);
     }
 
     private static void noAway() {

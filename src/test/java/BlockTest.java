@@ -3,29 +3,28 @@ public final class BlockTest {
     private static final int BAD = 9;
 
     public static void main(String[] args) {
-        emptyBlock();
-        fieldOfEntry();
-        noSuchEntry();
-        becomesNewEntry();
-        noSuchNameOfNewEntry();
-        becomesNoEntry();
-        noSuchNameOfNoEntry();
-        nameBeyondFifteen();
-        sizeBecomes();
-        sizeTooLarge();
-        sizeBehindField();
-        nameIsString();
-        emptyName();
-        emptyValue();
-        longestString();
-        tooLongString();
-        leastAndGreatestByte();
-        wrongByteInString();
-        notAllBytes();
-        bytesOfTheBlockBefore();
-        blockUpToItsLastByte();
-        readFromTheFront();
-        Check.end();
+        Check.run(BlockTest::emptyBlock,
+                BlockTest::fieldOfEntry,
+                BlockTest::noSuchEntry,
+                BlockTest::becomesNewEntry,
+                BlockTest::noSuchNameOfNewEntry,
+                BlockTest::becomesNoEntry,
+                BlockTest::noSuchNameOfNoEntry,
+                BlockTest::nameBeyondFifteen,
+                BlockTest::sizeBecomes,
+                BlockTest::sizeTooLarge,
+                BlockTest::sizeBehindField,
+                BlockTest::nameIsString,
+                BlockTest::emptyName,
+                BlockTest::emptyValue,
+                BlockTest::longestString,
+                BlockTest::tooLongString,
+                BlockTest::leastAndGreatestByte,
+                BlockTest::wrongByteInString,
+                BlockTest::notAllBytes,
+                BlockTest::bytesOfTheBlockBefore,
+                BlockTest::blockUpToItsLastByte,
+                BlockTest::readFromTheFront);
     }
 
     private static int codeOf(int... block) {

@@ -41,7 +41,21 @@ final class Check {
         return "nothing thrown";
     }
 
-    static void end() {
+    /** Runs the tests, one after the other; one that throws what it should not is wrong, and the next goes on. */
+    static void run(Runnable... tests) {
+        for (Runnable test : tests) {
+            sentence = "";
+            try {
+                test.run();
+            } catch (RuntimeException e) {
+                same("thrown", e, "nothing thrown");
+            }
+            same("a test names its sentence", !sentence.isEmpty(), true);
+        }
+        end();
+    }
+
+    private static void end() {
         System.out.println(wrong == 0 ? "all is as due" : wrong + " are not as due");
         if (wrong != 0) {
             System.exit(1);

@@ -1,17 +1,16 @@
 /** Promise 3: which streams are IDLE and OPEN, and what AWAY c and RESET c do, in 'Terms'. */
 public final class CodesTest {
     public static void main(String[] args) {
-        idleIfEven();
-        idleIfAboveTheHighest();
-        streamZeroIsNotIdle();
-        openFromItsHeadersOn();
-        openUntilItIsOver();
-        awayTellsTheHighestAndCode();
-        bytesBehindAwayAreIgnored();
-        restOfFeedBehindAwayIsIgnored();
-        resetTellsStreamAndCode();
-        resetEndsTheStream();
-        Check.end();
+        Check.run(CodesTest::idleIfEven,
+                CodesTest::idleIfAboveTheHighest,
+                CodesTest::streamZeroIsNotIdle,
+                CodesTest::openFromItsHeadersOn,
+                CodesTest::openUntilItIsOver,
+                CodesTest::awayTellsTheHighestAndCode,
+                CodesTest::bytesBehindAwayAreIgnored,
+                CodesTest::restOfFeedBehindAwayIsIgnored,
+                CodesTest::resetTellsStreamAndCode,
+                CodesTest::resetEndsTheStream);
     }
 
     /** The code that WINDOW by 1 leads to: of an idle stream it is 1, of another one 0. */

@@ -1,20 +1,19 @@
 /** Promise 3: the rows RESET, PING, AWAY and other types of 'Terms'. */
 public final class ControlTest {
     public static void main(String[] args) {
-        resetOfWrongLength();
-        resetOfStreamZeroOrIdle();
-        resetCloses();
-        resetOfOneThatIsNotOpen();
-        pingNotOfStreamZero();
-        pingOfWrongLength();
-        pingIsAnswered();
-        pingWithAck();
-        awayNotOfStreamZero();
-        awayOfWrongLength();
-        awayDoesNothing();
-        otherTypes();
-        firstThatHolds();
-        Check.end();
+        Check.run(ControlTest::resetOfWrongLength,
+                ControlTest::resetOfStreamZeroOrIdle,
+                ControlTest::resetCloses,
+                ControlTest::resetOfOneThatIsNotOpen,
+                ControlTest::pingNotOfStreamZero,
+                ControlTest::pingOfWrongLength,
+                ControlTest::pingIsAnswered,
+                ControlTest::pingWithAck,
+                ControlTest::awayNotOfStreamZero,
+                ControlTest::awayOfWrongLength,
+                ControlTest::awayDoesNothing,
+                ControlTest::otherTypes,
+                ControlTest::firstThatHolds);
     }
 
     /** Stream 3 is open and waits for DATA, 1 was left out. */

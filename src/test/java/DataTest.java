@@ -1,21 +1,20 @@
 /** Promise 3: the row DATA of 'Terms'. */
 public final class DataTest {
     public static void main(String[] args) {
-        streamZeroOrIdle();
-        tooFewBytesForPadding();
-        longerThanEighty();
-        windowForStreamZero();
-        noWindowForNoBytes();
-        notOpen();
-        clientsSideClosed();
-        longerThanFifty();
-        firstThatHolds();
-        bytesAreCounted();
-        endClosesClientsSide();
-        lengthFieldSaysAnother();
-        lengthFieldIsRight();
-        windowForTheStream();
-        Check.end();
+        Check.run(DataTest::streamZeroOrIdle,
+                DataTest::tooFewBytesForPadding,
+                DataTest::longerThanEighty,
+                DataTest::windowForStreamZero,
+                DataTest::noWindowForNoBytes,
+                DataTest::notOpen,
+                DataTest::clientsSideClosed,
+                DataTest::longerThanFifty,
+                DataTest::firstThatHolds,
+                DataTest::bytesAreCounted,
+                DataTest::endClosesClientsSide,
+                DataTest::lengthFieldSaysAnother,
+                DataTest::lengthFieldIsRight,
+                DataTest::windowForTheStream);
     }
 
     /** Stream 3 is open and waits for DATA; its page is empty. */

@@ -1,14 +1,13 @@
 /** Promise 11: entry. */
 public final class EntryTest {
     public static void main(String[] args) {
-        characters();
-        asTheyAreNumbered();
-        noSuchEntry();
-        noSuchEntryThatCame();
-        noSuchPart();
-        noSuchCharacter();
-        noCharacterOfEmptyValue();
-        Check.end();
+        Check.run(EntryTest::characters,
+                EntryTest::asTheyAreNumbered,
+                EntryTest::noSuchEntry,
+                EntryTest::noSuchEntryThatCame,
+                EntryTest::noSuchPart,
+                EntryTest::noSuchCharacter,
+                EntryTest::noCharacterOfEmptyValue);
     }
 
     private static void none(Talk talk, int k, int part, int j) {

@@ -7,6 +7,10 @@ import java.util.TreeSet;
 /** The public face is the document's, and nothing else can be seen. */
 public final class FaceTest {
     public static void main(String[] args) {
+        Check.run(FaceTest::asTheDocumentSays);
+    }
+
+    private static void asTheDocumentSays() {
         Check.of("The public face", "public final class PageServer");
         Check.same("class", Modifier.toString(PageServer.class.getModifiers()), "public final");
         Check.same("NONE", PageServer.NONE, -1);
@@ -25,7 +29,6 @@ public final class FaceTest {
         due.add("public int PageServer.stream(int,int) throws java.util.NoSuchElementException");
         due.add("public int PageServer.entry(int,int,int) throws java.util.NoSuchElementException");
         Check.same("methods", methods(), due.toString());
-        Check.end();
     }
 
     private static String constructors() {

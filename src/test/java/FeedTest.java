@@ -4,17 +4,16 @@ import java.util.Random;
 /** Promise 3: feed, and how the bytes of 'Terms' are cut into frames. */
 public final class FeedTest {
     public static void main(String[] args) {
-        lowestBytes();
-        wrongNumberOfBytes();
-        mostOutput();
-        mostOutputWithinFrame();
-        mostOutputBehindAway();
-        prefaceFirst();
-        wrongPreface();
-        bytesAsLengthSays();
-        twoBytesOneNumber();
-        piecesOfAnySize();
-        Check.end();
+        Check.run(FeedTest::lowestBytes,
+                FeedTest::wrongNumberOfBytes,
+                FeedTest::mostOutput,
+                FeedTest::mostOutputWithinFrame,
+                FeedTest::mostOutputBehindAway,
+                FeedTest::prefaceFirst,
+                FeedTest::wrongPreface,
+                FeedTest::bytesAsLengthSays,
+                FeedTest::twoBytesOneNumber,
+                FeedTest::piecesOfAnySize);
     }
 
     private static void lowestBytes() {

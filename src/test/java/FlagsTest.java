@@ -3,15 +3,14 @@ public final class FlagsTest {
     private static final int EVERY = 255;
 
     public static void main(String[] args) {
-        endOfData();
-        endOfHeaders();
-        ackOfSettings();
-        ackOfPing();
-        doneOfHeadersAndMore();
-        paddingAtTheEnd();
-        firstByteIsNoPadding();
-        otherFlags();
-        Check.end();
+        Check.run(FlagsTest::endOfData,
+                FlagsTest::endOfHeaders,
+                FlagsTest::ackOfSettings,
+                FlagsTest::ackOfPing,
+                FlagsTest::doneOfHeadersAndMore,
+                FlagsTest::paddingAtTheEnd,
+                FlagsTest::firstByteIsNoPadding,
+                FlagsTest::otherFlags);
     }
 
     private static void endOfData() {

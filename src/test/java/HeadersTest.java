@@ -1,29 +1,30 @@
 /** Promise 3: the row HEADERS of 'Terms': how streams are opened, refused and closed. */
 public final class HeadersTest {
     private static final int PADDED_WHOLE = Talk.DONE + Talk.END + Talk.PADDED;
+    /** A request of 100 bytes. */
+    private static final int[] HUNDRED = Talk.join(new int[] {129, 131}, Talk.times(98, 132));
 
     public static void main(String[] args) {
-        streamZeroOrEven();
-        tooFewBytesForPadding();
-        notAboveTheHighest();
-        clientsSideClosed();
-        oddAndAboveTheHighest();
-        paddingIsNoBlock();
-        longerThanHundred();
-        longerThanHundredByMore();
-        blockIsReadWhenOver();
-        blockCannotBeRead();
-        openAlreadyWithoutEnd();
-        openAlreadyWithColon();
-        openAlreadyGoesOn();
-        openAlreadyWithLengthField();
-        becomesTheHighest();
-        fourOthersAreOpen();
-        noRequest();
-        opens();
-        endClosesClientsSide();
-        firstThatHolds();
-        Check.end();
+        Check.run(HeadersTest::streamZeroOrEven,
+                HeadersTest::tooFewBytesForPadding,
+                HeadersTest::notAboveTheHighest,
+                HeadersTest::clientsSideClosed,
+                HeadersTest::oddAndAboveTheHighest,
+                HeadersTest::paddingIsNoBlock,
+                HeadersTest::longerThanHundred,
+                HeadersTest::longerThanHundredByMore,
+                HeadersTest::blockIsReadWhenOver,
+                HeadersTest::blockCannotBeRead,
+                HeadersTest::openAlreadyWithoutEnd,
+                HeadersTest::openAlreadyWithColon,
+                HeadersTest::openAlreadyGoesOn,
+                HeadersTest::openAlreadyWithLengthField,
+                HeadersTest::becomesTheHighest,
+                HeadersTest::fourOthersAreOpen,
+                HeadersTest::noRequest,
+                HeadersTest::opens,
+                HeadersTest::endClosesClientsSide,
+                HeadersTest::firstThatHolds);
     }
 
     private static void away(String what, Talk talk, String due) {
@@ -95,8 +96,6 @@ public final class HeadersTest {
         talk.frame(Talk.HEADERS, Talk.PADDED + Talk.END, 5, 1, 129, 0).frame(Talk.MORE, Talk.DONE, 5, 131);
         Check.same("a block begins anew, MORE goes on", talk.told() + " " + talk.about(7), "HEADERS 5 of 5: 135 2");
     }
-
-    private static final int[] HUNDRED = Talk.join(new int[] {129, 131}, Talk.times(98, 132));
 
     private static void longerThanHundred() {
         Check.of("Terms, HEADERS", "A block longer than 100: AWAY 9");
@@ -202,6 +201,11 @@ public final class HeadersTest {
         Check.same("before its block is over", talk.about(0), 0);
         Check.same("then", talk.frame(Talk.MORE, Talk.DONE, 9, 131).about(0), 9);
         Check.same("though it is no request", Talk.begun().askOpen(7).about(0), 7);
+        Talk full = Talk.begun();
+        for (int s = 1; s <= 9; s += 2) {
+            full.askOpen(s, 129, 131);
+        }
+        Check.same("though 4 others are open", full.about(0), 9);
         Check.same("1", Talk.begun().askOpen(1, 129, 131).about(0), 1);
         Check.same("255", Talk.begun().askOpen(255, 129, 131).about(0), 255);
     }

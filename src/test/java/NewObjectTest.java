@@ -3,12 +3,11 @@ public final class NewObjectTest {
     private static final String NEW_STATE = "0 0 100 64 24 0 0 0";
 
     public static void main(String[] args) {
-        noPages();
-        nothingCame();
-        outputBegins();
-        objectsShareNothing();
-        mostCalls();
-        Check.end();
+        Check.run(NewObjectTest::noPages,
+                NewObjectTest::nothingCame,
+                NewObjectTest::outputBegins,
+                NewObjectTest::objectsShareNothing,
+                NewObjectTest::mostCalls);
     }
 
     private static void noPages() {

@@ -1,18 +1,17 @@
 /** Promise 3: what is looked at before a frame's type, in 'A FRAME' of 'Terms'. */
 public final class OrderTest {
     public static void main(String[] args) {
-        tooLong();
-        tooLongBeforeAllElse();
-        firstIsNoSettings();
-        firstHasAck();
-        firstBeforeItsOwnRules();
-        noMoreBehindHeaders();
-        noMoreBehindMore();
-        moreOfAnotherStream();
-        moreAlone();
-        orderBeforeOwnRules();
-        moreEndsBlock();
-        Check.end();
+        Check.run(OrderTest::tooLong,
+                OrderTest::tooLongBeforeAllElse,
+                OrderTest::firstIsNoSettings,
+                OrderTest::firstHasAck,
+                OrderTest::firstBeforeItsOwnRules,
+                OrderTest::noMoreBehindHeaders,
+                OrderTest::noMoreBehindMore,
+                OrderTest::moreOfAnotherStream,
+                OrderTest::moreAlone,
+                OrderTest::orderBeforeOwnRules,
+                OrderTest::moreEndsBlock);
     }
 
     private static void away(String what, Talk talk, int highest, int code) {

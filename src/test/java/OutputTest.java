@@ -1,19 +1,18 @@
 /** Promises 5 to 7: waiting, out and take. */
 public final class OutputTest {
     public static void main(String[] args) {
-        howManyWait();
-        noneWaits();
-        mostThatWait();
-        byteByByte();
-        outTakesNothing();
-        noSuchByte();
-        noSuchByteWhenNoneWaits();
-        takesTheFirst();
-        takesAllIfNoMore();
-        takesJustAll();
-        takesNoneBelowOne();
-        takesFromNone();
-        Check.end();
+        Check.run(OutputTest::howManyWait,
+                OutputTest::noneWaits,
+                OutputTest::mostThatWait,
+                OutputTest::byteByByte,
+                OutputTest::outTakesNothing,
+                OutputTest::noSuchByte,
+                OutputTest::noSuchByteWhenNoneWaits,
+                OutputTest::takesTheFirst,
+                OutputTest::takesAllIfNoMore,
+                OutputTest::takesJustAll,
+                OutputTest::takesNoneBelowOne,
+                OutputTest::takesFromNone);
     }
 
     private static void howManyWait() {

@@ -1,24 +1,23 @@
 /** Promise 2: page, and the site of 'Terms'. */
 public final class PageTest {
     public static void main(String[] args) {
-        mostPages();
-        leastAndMostBody();
-        anyByte();
-        shortestAndLongestPath();
-        lettersInOrder();
-        answersItsNumber();
-        byteThatIsNoLetter();
-        zeroBehindLetters();
-        fourLettersInMore();
-        tooFewLettersBeforeMore();
-        wrongSize();
-        wrongByte();
-        suchAPath();
-        ninthPage();
-        wrongArgumentOnFullSite();
-        refusalChangesNothing();
-        pageDuringTalk();
-        Check.end();
+        Check.run(PageTest::mostPages,
+                PageTest::leastAndMostBody,
+                PageTest::anyByte,
+                PageTest::shortestAndLongestPath,
+                PageTest::lettersInOrder,
+                PageTest::answersItsNumber,
+                PageTest::byteThatIsNoLetter,
+                PageTest::zeroBehindLetters,
+                PageTest::fourLettersInMore,
+                PageTest::tooFewLettersBeforeMore,
+                PageTest::wrongSize,
+                PageTest::wrongByte,
+                PageTest::suchAPath,
+                PageTest::ninthPage,
+                PageTest::wrongArgumentOnFullSite,
+                PageTest::refusalChangesNothing,
+                PageTest::pageDuringTalk);
     }
 
     private static int word(String letters) {

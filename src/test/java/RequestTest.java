@@ -5,18 +5,17 @@ public final class RequestTest {
     private static final int[] HOST = {132};
 
     public static void main(String[] args) {
-        oneMethodAndOnePath();
-        noMethodOrNoPath();
-        twoMethodsOrTwoPaths();
-        beforeAllOthers();
-        noOtherNameWithColon();
-        otherNamesAreLetters();
-        otherNamesAreNotLetters();
-        anyValues();
-        atMostOneLength();
-        oneToThreeDigits();
-        notOneToThreeDigits();
-        Check.end();
+        Check.run(RequestTest::oneMethodAndOnePath,
+                RequestTest::noMethodOrNoPath,
+                RequestTest::twoMethodsOrTwoPaths,
+                RequestTest::beforeAllOthers,
+                RequestTest::noOtherNameWithColon,
+                RequestTest::otherNamesAreLetters,
+                RequestTest::otherNamesAreNotLetters,
+                RequestTest::anyValues,
+                RequestTest::atMostOneLength,
+                RequestTest::oneToThreeDigits,
+                RequestTest::notOneToThreeDigits);
     }
 
     /** Whether the block opens a stream; it answers RESET 1 if not. */

@@ -4,19 +4,18 @@ public final class RestartTest {
     private static final String NEW = new Talk().all();
 
     public static void main(String[] args) {
-        newObject();
-        withinPreface();
-        withinFrame();
-        withinBlock();
-        afterAway();
-        withFullOutput();
-        streamsAndTable();
-        firstFrameIsSettingsAgain();
-        turnBeginsAnew();
-        pagesStay();
-        fullSiteStays();
-        manyTimes();
-        Check.end();
+        Check.run(RestartTest::newObject,
+                RestartTest::withinPreface,
+                RestartTest::withinFrame,
+                RestartTest::withinBlock,
+                RestartTest::afterAway,
+                RestartTest::withFullOutput,
+                RestartTest::streamsAndTable,
+                RestartTest::firstFrameIsSettingsAgain,
+                RestartTest::turnBeginsAnew,
+                RestartTest::pagesStay,
+                RestartTest::fullSiteStays,
+                RestartTest::manyTimes);
     }
 
     /** Restarts, looks that all is as in a new object, and that a talk begins as with one. */

@@ -1,21 +1,20 @@
 /** Promise 3: how DATA are sent, at the end of 'Terms'. */
 public final class SendTest {
     public static void main(String[] args) {
-        afterEachFrame();
-        notAfterAway();
-        windowAboveZero();
-        nextNumberAbove();
-        leastIfNoneIsAbove();
-        lastOneMayBeOver();
-        asItsWindowAllows();
-        asTheConnectionsWindowAllows();
-        asTheLongestFrameAllows();
-        asItsBytesAllow();
-        bothWindowsAreLess();
-        lastOnesWithEnd();
-        untilThereIsNoSuchStream();
-        untilTheConnectionsWindowIsZero();
-        Check.end();
+        Check.run(SendTest::afterEachFrame,
+                SendTest::notAfterAway,
+                SendTest::windowAboveZero,
+                SendTest::nextNumberAbove,
+                SendTest::leastIfNoneIsAbove,
+                SendTest::lastOneMayBeOver,
+                SendTest::asItsWindowAllows,
+                SendTest::asTheConnectionsWindowAllows,
+                SendTest::asTheLongestFrameAllows,
+                SendTest::asItsBytesAllow,
+                SendTest::bothWindowsAreLess,
+                SendTest::lastOnesWithEnd,
+                SendTest::untilThereIsNoSuchStream,
+                SendTest::untilTheConnectionsWindowIsZero);
     }
 
     /** Streams 3, 5 and 9 have 60 bytes each to be sent and no window; the connection's is wide. */

@@ -1,23 +1,23 @@
 /** Promise 3: the row SETTINGS of 'Terms'. */
 public final class SettingsTest {
     public static void main(String[] args) {
-        notOfStreamZero();
-        ackWithLength();
-        ackDoesNothing();
-        oddLength();
-        noPairs();
-        windowsOfOpenStreams();
-        windowsBelowZero();
-        newStreamsBeginWithIt();
-        leastAndMostFirstWindow();
-        windowsHaveNoMost();
-        longestFrame();
-        longestBelowSixteen();
-        pairAfterPair();
-        otherNumbers();
-        ackIsSent();
-        firstThatHolds();
-        Check.end();
+        Check.run(SettingsTest::notOfStreamZero,
+                SettingsTest::ackWithLength,
+                SettingsTest::ackDoesNothing,
+                SettingsTest::oddLength,
+                SettingsTest::noPairs,
+                SettingsTest::windowsOfOpenStreams,
+                SettingsTest::windowsBelowZero,
+                SettingsTest::newStreamsBeginWithIt,
+                SettingsTest::leastAndMostFirstWindow,
+                SettingsTest::windowsHaveNoMost,
+                SettingsTest::longestFrame,
+                SettingsTest::longestBelowSixteen,
+                SettingsTest::pairAfterPair,
+                SettingsTest::valueIsNoNumber,
+                SettingsTest::otherNumbers,
+                SettingsTest::ackIsSent,
+                SettingsTest::firstThatHolds);
     }
 
     private static void away(String what, Talk talk, int code) {
@@ -154,6 +154,14 @@ public final class SettingsTest {
         talk.settings(4, 50, 5, 15, 4, 60, 5, 80);
         Check.same("one that is against the rules", talk.told(), "AWAY 0 of 0: 1 1");
         Check.same("those before it hold, those behind it do not", talk.stream(1, 0) + " " + talk.about(3), "50 70");
+    }
+
+    private static void valueIsNoNumber() {
+        Check.of("Terms, TYPES", "4 SETTINGS (pairs: a number and a value)");
+        Talk talk = Talk.withPages().askOpen(1, Talk.getting('a')).settings(6, 4, 9, 5, 3, 4, 7, 5);
+        Check.same("values 4 and 5", talk.told() + talk.stream(1, 0) + " " + talk.about(3), "SETTINGS 1 of 0:40 64");
+        talk.settings(4, 5, 5, 16, 6, 6);
+        Check.same("a window of 5, and 16", talk.told() + talk.stream(1, 0) + " " + talk.about(3), "SETTINGS 1 of 0:5 16");
     }
 
     private static void otherNumbers() {

@@ -1,16 +1,15 @@
 /** Promise 10: stream. */
 public final class StreamTest {
     public static void main(String[] args) {
-        itsWindow();
-        bytesToBeSent();
-        bytesCounted();
-        clientsSide();
-        fourAtOnce();
-        nothingOfTheOneBefore();
-        notOpen();
-        noSuchStream();
-        anotherWhat();
-        Check.end();
+        Check.run(StreamTest::itsWindow,
+                StreamTest::bytesToBeSent,
+                StreamTest::bytesCounted,
+                StreamTest::clientsSide,
+                StreamTest::fourAtOnce,
+                StreamTest::nothingOfTheOneBefore,
+                StreamTest::notOpen,
+                StreamTest::noSuchStream,
+                StreamTest::anotherWhat);
     }
 
     private static void itsWindow() {

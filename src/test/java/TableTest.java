@@ -1,20 +1,19 @@
 /** Promise 3: the row ENTRIES of 'Terms'. */
 public final class TableTest {
     public static void main(String[] args) {
-        fixedEntries();
-        newestFirst();
-        whatOneTakes();
-        sizeAtFirst();
-        justSize();
-        oldestGoBeforeNewOne();
-        oldestGoWhenSizeChanges();
-        sizeThatIsJustTaken();
-        sizeDownAndUp();
-        sizeZero();
-        oneThatTakesMoreAlone();
-        oneThatTakesJustSize();
-        nameOfOneThatGoes();
-        Check.end();
+        Check.run(TableTest::fixedEntries,
+                TableTest::newestFirst,
+                TableTest::whatOneTakes,
+                TableTest::sizeAtFirst,
+                TableTest::justSize,
+                TableTest::oldestGoBeforeNewOne,
+                TableTest::oldestGoWhenSizeChanges,
+                TableTest::sizeThatIsJustTaken,
+                TableTest::sizeDownAndUp,
+                TableTest::sizeZero,
+                TableTest::oneThatTakesMoreAlone,
+                TableTest::oneThatTakesJustSize,
+                TableTest::nameOfOneThatGoes);
     }
 
     /** How many entries came, what they take, and the entries. */

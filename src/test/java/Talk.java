@@ -231,8 +231,11 @@ final class Talk {
         List<Integer> bytes = said();
         StringBuilder text = new StringBuilder();
         int at = 0;
-        while (at + 4 <= bytes.size()) {
-            int end = Math.min(at + 4 + bytes.get(at), bytes.size());
+        while (at < bytes.size()) {
+            if (at + 4 > bytes.size() || at + 4 + bytes.get(at) > bytes.size()) {
+                return text.append(" and no whole frame: ").append(bytes.subList(at, bytes.size())).toString();
+            }
+            int end = at + 4 + bytes.get(at);
             if (text.length() > 0) {
                 text.append("; ");
             }

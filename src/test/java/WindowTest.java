@@ -3,17 +3,16 @@ public final class WindowTest {
     private static final int MOST = 30000;
 
     public static void main(String[] args) {
-        wrongLength();
-        idleStream();
-        connectionByZero();
-        connectionAboveMost();
-        connectionGrows();
-        streamByZero();
-        streamAboveMost();
-        streamGrows();
-        othersDoNothing();
-        firstThatHolds();
-        Check.end();
+        Check.run(WindowTest::wrongLength,
+                WindowTest::idleStream,
+                WindowTest::connectionByZero,
+                WindowTest::connectionAboveMost,
+                WindowTest::connectionGrows,
+                WindowTest::streamByZero,
+                WindowTest::streamAboveMost,
+                WindowTest::streamGrows,
+                WindowTest::othersDoNothing,
+                WindowTest::firstThatHolds);
     }
 
     /** Streams 3 and 7 are open and wait for DATA. */
