@@ -61,6 +61,7 @@ public final class HeadersTest {
         away("over", Talk.begun().ask(5, 129, 131).hushed().ask(5, 129, 131), "5 5");
         away("no request", Talk.begun().ask(5).hushed().ask(5, 129, 131), "5 5");
         away("after RESET", open().frame(Talk.RESET, 0, 1, 0).ask(1), "1 5");
+        away("1 behind 255", Talk.begun().ask(255, 129, 131).hushed().ask(1, 129, 131), "255 5");
         Talk full = Talk.withPages();
         for (int s = 1; s <= 9; s += 2) {
             full.askOpen(s, Talk.getting('a'));
