@@ -27,12 +27,10 @@ public final class PageServer {
     private static final int REFUSED = 7;
     private static final int BAD_BLOCK = 9;
 
-    private final Site site;
     private final Connection connection;
 
     public PageServer() {
-        site = new Site();
-        connection = new Connection(site);
+        connection = new Connection();
     }
 
     public int page(int path, int more, int size, int b)
@@ -44,13 +42,13 @@ public final class PageServer {
             throw new IllegalArgumentException("no body");
         }
         String text = Site.pathText(path, more);
-        if (site.find(text) != null) {
+        if (connection.site.find(text) != null) {
             throw new IllegalArgumentException("there is such a path");
         }
-        if (site.isFull()) {
+        if (connection.site.isFull()) {
             throw new IllegalStateException("the site is full");
         }
-        return site.add(text, size, b);
+        return connection.site.add(text, size, b);
     }
 
     public boolean feed(int word, int n) {
@@ -453,7 +451,6 @@ public final class PageServer {
         private static final int LONGEST = 100;
         private static final int LONGEST_TEXT = 20;
 
-        private final HeaderTable table;
         private final int[] bytes = new int[LONGEST];
         private final Field[] fields = new Field[LONGEST];
         private int position;
@@ -463,10 +460,6 @@ public final class PageServer {
         boolean hasEnd;
         boolean isComing;
         boolean isOver;
-
-        Block(HeaderTable table) {
-            this.table = table;
-        }
 
         void clear() {
             count = 0;
@@ -501,33 +494,33 @@ public final class PageServer {
         }
 
         /** false when the block cannot be read. */
-        boolean read() {
+        boolean read(HeaderTable table) {
             isOver = false;
             position = 0;
             for (int turn = 0; turn < LONGEST && position < count; turn++) {
-                if (!readNext()) {
+                if (!readNext(table)) {
                     return false;
                 }
             }
             return true;
         }
 
-        private boolean readNext() {
+        private boolean readNext(HeaderTable table) {
             int first = bytes[position];
             position++;
             if (first >= 128) {
                 return keep(table.find(first - 128));
             }
             if (first >= 64) {
-                return readField(first - 64, true);
+                return readField(table, first - 64, true);
             }
             if (first >= 32) {
-                return readSize(first - 32);
+                return readSize(table, first - 32);
             }
-            return first <= 15 && readField(first, false);
+            return first <= 15 && readField(table, first, false);
         }
 
-        private boolean readSize(int n) {
+        private boolean readSize(HeaderTable table, int n) {
             if (n > HeaderTable.MOST_SIZE || fieldCount > 0) {
                 return false;
             }
@@ -535,7 +528,7 @@ public final class PageServer {
             return true;
         }
 
-        private boolean readField(int nameEntry, boolean becomesEntry) {
+        private boolean readField(HeaderTable table, int nameEntry, boolean becomesEntry) {
             String name = nameEntry == 0 ? readText(1) : table.findName(nameEntry);
             if (name == null) {
                 return false;
@@ -786,12 +779,12 @@ public final class PageServer {
         // Four bodies of 60 bytes in frames of 16 and more are far fewer.
         private static final int MOST_TURNS = 1000;
 
-        private final Site site;
         private final Frame frame = new Frame();
         private final Request request = new Request();
+        final Site site = new Site();
         final Output output = new Output();
         final HeaderTable table = new HeaderTable();
-        final Block block = new Block(table);
+        final Block block = new Block();
         final Streams streams = new Streams();
         private int prefaceCount;
         private boolean firstFrameCame;
@@ -800,11 +793,11 @@ public final class PageServer {
         int window;
         int longest;
 
-        Connection(Site site) {
-            this.site = site;
+        Connection() {
             begin();
         }
 
+        /** All anew but the site, which restart keeps. */
         void begin() {
             frame.clear();
             output.clear();
@@ -955,7 +948,7 @@ public final class PageServer {
         }
 
         private void endBlock() {
-            if (!block.read()) {
+            if (!block.read(table)) {
                 sendAway(BAD_BLOCK);
                 return;
             }

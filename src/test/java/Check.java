@@ -8,7 +8,7 @@ final class Check {
     private Check() {
     }
 
-    /** The checks from here on are for these words of ../shared/DOC.md, which stand there under where. */
+    /** The checks from here on are for these words, which stand under where in ../shared/DOC.md (or in the file it names). */
     static void of(String where, String words) {
         sentence = where + " '" + words + "': ";
     }
